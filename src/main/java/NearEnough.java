@@ -350,23 +350,28 @@ public final class NearEnough {
         return size != foundSize ? size < foundSize : choice < found;
     }
 
-    private Front frontOf(int end) {
+    private Front madeFront() {
         if (edge == null) {
             edge = new Front(told, changes, shown);
         }
-        edge.gather(end);
         return edge;
     }
 
     public int front(int end) {
-        return told.hasEnd(end) ? frontOf(end).count : NONE;
+        if (!told.hasEnd(end)) {
+            return NONE;
+        }
+        Front its = madeFront();
+        its.gather(end);
+        return its.count;
     }
 
     public long pair(int end, int i, int what) {
         if (!told.hasEnd(end) || i < 0 || what < 0 || what > 1) {
             return NONE;
         }
-        Front its = frontOf(end);
+        Front its = madeFront();
+        its.gather(end);
         if (i >= its.count) {
             return NONE;
         }
@@ -495,11 +500,10 @@ public final class NearEnough {
         return left;
     }
 
-    private Plan planOf(int end) {
+    private Plan madePlan() {
         if (planner == null) {
             planner = new Plan(told, sheets, changes, shown, worker);
         }
-        planner.prepare(end);
         return planner;
     }
 
@@ -508,11 +512,21 @@ public final class NearEnough {
     }
 
     public int plan(int end, int much) {
-        return canPlan(end, much) ? planOf(end).savesFor(much) : NONE;
+        if (!canPlan(end, much)) {
+            return NONE;
+        }
+        Plan its = madePlan();
+        its.prepare(end);
+        return its.savesFor(much);
     }
 
     public int planned(int end, int much, int sheet) {
-        return canPlan(end, much) && sheets.has(sheet) ? planOf(end).choiceFor(much, sheet) : NONE;
+        if (!canPlan(end, much) || !sheets.has(sheet)) {
+            return NONE;
+        }
+        Plan its = madePlan();
+        its.prepare(end);
+        return its.choiceFor(much, sheet);
     }
 
     public int about(int what) {
@@ -733,7 +747,8 @@ public final class NearEnough {
         private void scanWord() {
             word = 0;
             while (next < length && text[next] >= 'a' && text[next] <= 'z') {
-                word = withLetter(word, text[next]);
+                // Eight letters of five bits fit a long, so that no text has to be made for a NAME.
+                word = word << 5 | text[next] - 'a' + 1;
                 next++;
             }
             kind = next - place <= LONGEST_WORD ? WORD : NO_TOKEN;
@@ -754,23 +769,28 @@ public final class NearEnough {
             next++;
         }
 
-        /** Eight letters of five bits fit a long, so that no text has to be made for a word. */
-        static long withLetter(long word, int letter) {
-            return word << 5 | letter - 'a' + 1;
-        }
-
-        static long packed(String letters) {
-            long word = 0;
-            for (int i = 0; i < letters.length(); i++) {
-                word = withLetter(word, letters.charAt(i));
+        /** Whether the word at hand is one of those in a text, where each ends with a blank. */
+        boolean isOneOf(String words) {
+            int size = next - place;
+            int letters = 0;
+            boolean fits = true;
+            for (int i = 0; i < words.length(); i++) {
+                if (words.charAt(i) != ' ') {
+                    fits = fits && letters < size && text[place + letters] == words.charAt(i);
+                    letters++;
+                } else if (fits && letters == size) {
+                    return true;
+                } else {
+                    letters = 0;
+                    fits = true;
+                }
             }
-            return word;
+            return false;
         }
     }
 
     /** Reads a PROGRAM from a text, up to its first FAULT. */
     private static final class Reader {
-        // Each word ends with a blank, the last one too.
         private static final String OWN_WORDS =
                 "row has from to sum of most add less times scale by over at place pick if under end off never mean one ";
 
@@ -786,9 +806,12 @@ public final class NearEnough {
         void readAll() {
             scanner.advance();
             for (int line = 0; line < MOST_BYTES && fault == 0 && scanner.kind != Scanner.TEXT_END; line++) {
-                if (scanner.kind == Scanner.WORD && scanner.word == Scanner.packed("row")) {
+                if (!expects(Scanner.WORD)) {
+                    return;
+                }
+                if (scanner.isOneOf("row ")) {
                     readRow();
-                } else if (scanner.kind == Scanner.WORD && scanner.word == Scanner.packed("end")) {
+                } else if (scanner.isOneOf("end ")) {
                     readEnd();
                 } else {
                     readStep();
@@ -806,27 +829,24 @@ public final class NearEnough {
         /** Whether the TOKEN at hand is of a kind; a FAULT if not. */
         private boolean expects(int kind) {
             if (fault == 0 && scanner.kind != kind) {
-                refuse(scanner.kind == Scanner.NO_TOKEN ? 1 : 2, scanner.place);
+                fault = scanner.kind == Scanner.NO_TOKEN ? 1 : 2;
+                faultPlace = scanner.place;
             }
             return fault == 0;
         }
 
-        private void begin(boolean room) {
-            if (!room) {
-                refuse(2, scanner.place);
-            } else {
+        /** Goes on behind the TOKEN at hand, if it can stand there. */
+        private void pass(boolean canStand) {
+            if (canStand) {
                 scanner.advance();
+            } else {
+                refuse(2, scanner.place);
             }
         }
 
-        private void needWord(String letters) {
-            if (!expects(Scanner.WORD)) {
-                return;
-            }
-            if (scanner.word == Scanner.packed(letters)) {
-                scanner.advance();
-            } else {
-                refuse(2, scanner.place);
+        private void needWord(String word) {
+            if (expects(Scanner.WORD)) {
+                pass(scanner.isOneOf(word));
             }
         }
 
@@ -836,20 +856,12 @@ public final class NearEnough {
             }
         }
 
-        private int needSigned(int least, int greatest) {
+        private int needNumber(int least, int greatest, boolean mayHaveSign) {
             int place = scanner.place;
-            boolean negative = fault == 0 && scanner.kind == Scanner.MINUS;
+            boolean negative = mayHaveSign && fault == 0 && scanner.kind == Scanner.MINUS;
             if (negative) {
                 scanner.advance();
             }
-            return needNumber(place, negative, least, greatest);
-        }
-
-        private int needUnsigned(int least, int greatest) {
-            return needNumber(scanner.place, false, least, greatest);
-        }
-
-        private int needNumber(int place, boolean negative, int least, int greatest) {
             if (!expects(Scanner.NUMBER)) {
                 return 0;
             }
@@ -864,24 +876,10 @@ public final class NearEnough {
 
         /** Whether a NAME is at hand; a FAULT if not. */
         private boolean expectsName() {
-            if (expects(Scanner.WORD) && isOwnWord(scanner.word)) {
+            if (expects(Scanner.WORD) && scanner.isOneOf(OWN_WORDS)) {
                 refuse(2, scanner.place);
             }
             return fault == 0;
-        }
-
-        private static boolean isOwnWord(long name) {
-            long word = 0;
-            for (int i = 0; i < OWN_WORDS.length(); i++) {
-                if (OWN_WORDS.charAt(i) != ' ') {
-                    word = Scanner.withLetter(word, OWN_WORDS.charAt(i));
-                } else if (word == name) {
-                    return true;
-                } else {
-                    word = 0;
-                }
-            }
-            return false;
         }
 
         private long needNewName() {
@@ -924,14 +922,14 @@ public final class NearEnough {
         }
 
         private void readRow() {
-            begin(told.rowCount < MOST_ROWS);
+            pass(told.rowCount < MOST_ROWS);
             long name = needNewName();
-            needWord("has");
-            int count = needUnsigned(1, 6);
-            needWord("from");
-            int low = needSigned(-999, 999);
-            needWord("to");
-            int high = needSigned(low, 999);
+            needWord("has ");
+            int count = needNumber(1, 6, false);
+            needWord("from ");
+            int low = needNumber(-999, 999, true);
+            needWord("to ");
+            int high = needNumber(low, 999, true);
             needSemicolon();
             if (fault == 0) {
                 told.addRow(name, count, low, high);
@@ -939,14 +937,14 @@ public final class NearEnough {
         }
 
         private void readEnd() {
-            begin(told.endCount < MOST_ENDS);
+            pass(told.endCount < MOST_ENDS);
             int place = scanner.place;
             int step = needStep();
             if (fault == 0 && told.hasEndOf(step)) {
                 refuse(3, place);
             }
-            needWord("off");
-            int off = needUnsigned(0, 9999);
+            needWord("off ");
+            int off = needNumber(0, 9999, false);
             int kind = needEndKind();
             needSemicolon();
             if (fault == 0) {
@@ -958,25 +956,14 @@ public final class NearEnough {
             if (!expects(Scanner.WORD)) {
                 return Program.NEVER;
             }
-            long word = scanner.word;
-            if (word == Scanner.packed("mean")) {
-                needWord("mean");
-                return Program.MEAN;
-            }
-            if (word == Scanner.packed("one")) {
-                needWord("one");
-                return Program.ONE;
-            }
-            needWord("never");
-            return Program.NEVER;
+            int kind = scanner.isOneOf("mean ") ? Program.MEAN : scanner.isOneOf("one ") ? Program.ONE : Program.NEVER;
+            needWord("never mean one ");
+            return kind;
         }
 
         private void readStep() {
-            if (!expects(Scanner.WORD)) {
-                return;
-            }
-            int kind = stepKind(scanner.word);
-            begin(kind != NONE && told.stepCount < MOST_STEPS);
+            int kind = stepKind();
+            pass(kind != NONE && told.stepCount < MOST_STEPS);
             int place = scanner.place;
             Step step = new Step(kind, needNewName());
             readParts(step);
@@ -992,56 +979,56 @@ public final class NearEnough {
             }
         }
 
-        private static int stepKind(long word) {
-            if (word == Scanner.packed("sum")) {
+        private int stepKind() {
+            if (scanner.isOneOf("sum ")) {
                 return Step.SUM;
             }
-            if (word == Scanner.packed("most")) {
+            if (scanner.isOneOf("most ")) {
                 return Step.MOST;
             }
-            if (word == Scanner.packed("add")) {
+            if (scanner.isOneOf("add ")) {
                 return Step.ADD;
             }
-            if (word == Scanner.packed("less")) {
+            if (scanner.isOneOf("less ")) {
                 return Step.LESS;
             }
-            if (word == Scanner.packed("times")) {
+            if (scanner.isOneOf("times ")) {
                 return Step.TIMES;
             }
-            if (word == Scanner.packed("scale")) {
+            if (scanner.isOneOf("scale ")) {
                 return Step.SCALE;
             }
-            if (word == Scanner.packed("at")) {
+            if (scanner.isOneOf("at ")) {
                 return Step.AT;
             }
-            return word == Scanner.packed("pick") ? Step.PICK : NONE;
+            return scanner.isOneOf("pick ") ? Step.PICK : NONE;
         }
 
         private void readParts(Step step) {
             switch (step.kind) {
                 case Step.SUM:
                 case Step.MOST:
-                    needWord("of");
+                    needWord("of ");
                     step.row = needRow();
                     break;
                 case Step.SCALE:
                     step.a = needStep();
-                    needWord("by");
-                    step.by = needSigned(-99, 99);
-                    needWord("over");
-                    step.over = needUnsigned(1, 99);
+                    needWord("by ");
+                    step.by = needNumber(-99, 99, true);
+                    needWord("over ");
+                    step.over = needNumber(1, 99, false);
                     break;
                 case Step.AT:
                     step.row = needRow();
-                    needWord("place");
+                    needWord("place ");
                     step.a = needStep();
                     break;
                 case Step.PICK:
                     step.a = needStep();
                     step.b = needStep();
-                    needWord("if");
+                    needWord("if ");
                     step.under = needStep();
-                    needWord("under");
+                    needWord("under ");
                     step.other = needStep();
                     break;
                 default:
@@ -1384,10 +1371,10 @@ public final class NearEnough {
                 greatest = 0;
                 if (its.row == null) {
                     showFromSteps(its);
-                    showChange(its, change, changes.nAt(step));
                 } else {
                     showRowChange(its, its.row, change, step);
                 }
+                showChange(its, change, changes.nAt(step));
                 if (least < -FARTHEST || greatest > FARTHEST) {
                     return step;
                 }
@@ -1408,11 +1395,6 @@ public final class NearEnough {
         private void set(long e, long f) {
             least = e;
             greatest = f;
-        }
-
-        private void widen(long e, long f) {
-            least = Math.min(least, e);
-            greatest = Math.max(greatest, f);
         }
 
         private void showFromSteps(Step step) {
@@ -1470,7 +1452,8 @@ public final class NearEnough {
         private void widenByTaking(int one, int due) {
             Step a = told.steps[one];
             Step b = told.steps[due];
-            widen(a.low - b.high + low[one], a.high - b.low + high[one]);
+            least = Math.min(least, a.low - b.high + low[one]);
+            greatest = Math.max(greatest, a.high - b.low + high[one]);
         }
 
         private void showChange(Step step, int change, int n) {
@@ -1491,7 +1474,6 @@ public final class NearEnough {
         }
 
         private void showRowChange(Step step, Row row, int change, int number) {
-            int n = changes.nAt(number);
             boolean sums = step.kind == Step.SUM;
             long reads = sums ? row.count : 1;
             long wide = (long) row.high - row.low;
@@ -1501,7 +1483,7 @@ public final class NearEnough {
                     set(-missing * wide - 1, missing * wide + 1);
                     break;
                 case Changes.COARSE:
-                    least -= reads * (n - 1);
+                    least -= reads * (changes.nAt(number) - 1);
                     break;
                 case Changes.SHORT:
                     if (missing > 0) {
@@ -1512,7 +1494,6 @@ public final class NearEnough {
                     set(-reads * wide, reads * wide);
                     break;
                 default:
-                    showChange(step, change, n);
             }
         }
 
