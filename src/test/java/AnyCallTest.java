@@ -73,7 +73,7 @@ public final class AnyCallTest {
         switch (random.nextInt(44)) {
             case 0: return x.feed(random.nextInt(), some(), random.nextInt(), some(), some());
             case 1: return x.end(some());
-            case 2: return random.nextInt(3) == 0 ? tell() : x.program();
+            case 2: return random.nextInt(4) != 0 ? tell() : x.program();
             case 3: return x.fault(some());
             case 4: return x.span(some(), random.nextBoolean());
             case 5:
