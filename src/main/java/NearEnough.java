@@ -127,7 +127,7 @@ public final class NearEnough {
         sheets.kept[sheet] = kept;
         sheets.lay(sheet, 0, told);
         sheets.count = sheet + 1;
-        worker.workPlain(sheet);
+        worker.workPlain(sheet, lastStep());
         forgetPlan();
         return sheet;
     }
@@ -141,7 +141,7 @@ public final class NearEnough {
             return false;
         }
         sheets.numbers[sheet * MOST_PLACES + its.first + place] = number;
-        worker.workPlain(sheet);
+        worker.workPlain(sheet, lastStep());
         forgetPlan();
         return true;
     }
@@ -193,18 +193,18 @@ public final class NearEnough {
         return changes.take(choice) ? shown.show(0) : -2;
     }
 
-    /** The ERROR of an END, without its sign, on a SHEET by the CHOICE that is taken. */
-    private long wrong(int end, int sheet) {
+    /** The ERROR of an END on a SHEET by the CHOICE that is taken. */
+    private long errorOn(int end, int sheet) {
         int step = told.endStep[end];
         worker.workChanged(sheet, 0, step);
-        return Math.abs(worker.errorAt(sheet, step));
+        return worker.errorAt(sheet, step);
     }
 
     private long greatestWrong(int end) {
         long greatest = 0;
         for (int sheet = 0; sheet < sheets.count; sheet++) {
             if (!sheets.kept[sheet]) {
-                greatest = Math.max(greatest, wrong(end, sheet));
+                greatest = Math.max(greatest, Math.abs(errorOn(end, sheet)));
             }
         }
         return greatest;
@@ -224,7 +224,7 @@ public final class NearEnough {
         long greatest = greatestWrong(end);
         int passing = 0;
         for (int sheet = 0; sheet < sheets.count; sheet++) {
-            if (sheets.kept[sheet] && wrong(end, sheet) > greatest) {
+            if (sheets.kept[sheet] && Math.abs(errorOn(end, sheet)) > greatest) {
                 passing++;
             }
         }
@@ -237,7 +237,7 @@ public final class NearEnough {
         }
         long total = 0;
         for (int sheet = 0; sheet < sheets.count; sheet++) {
-            total += wrong(end, sheet);
+            total += Math.abs(errorOn(end, sheet));
         }
         long common = Math.max(1, greatestDivisor(total, sheets.count));
         return (part == 0 ? total : sheets.count) / common;
@@ -452,11 +452,9 @@ public final class NearEnough {
     }
 
     private long errorByBits(int end, int bits) {
-        int step = told.endStep[end];
         sheets.lay(Sheets.WORST, bits, told);
-        worker.workPlain(Sheets.WORST);
-        worker.workChanged(Sheets.WORST, 0, step);
-        return worker.errorAt(Sheets.WORST, step);
+        worker.workPlain(Sheets.WORST, told.endStep[end]);
+        return errorOn(end, Sheets.WORST);
     }
 
     public long led(int end, int sheet, int choice, int change) {
@@ -474,12 +472,6 @@ public final class NearEnough {
         return stands(ahead | 1 << change) ? errorOn(end, sheet) - without : NO_ERROR;
     }
 
-    private long errorOn(int end, int sheet) {
-        int step = told.endStep[end];
-        worker.workChanged(sheet, 0, step);
-        return worker.errorAt(sheet, step);
-    }
-
     public boolean purse(int much) {
         if (much < 0 || much > MOST_PURSE) {
             return false;
@@ -492,7 +484,7 @@ public final class NearEnough {
         if (!told.hasEnd(end) || !sheets.has(sheet) || !stands(choice)) {
             return NONE;
         }
-        long spent = wrong(end, sheet);
+        long spent = Math.abs(errorOn(end, sheet));
         if (spent > left) {
             return -2;
         }
@@ -1227,9 +1219,9 @@ public final class NearEnough {
             this.changes = changes;
         }
 
-        void workPlain(int sheet) {
+        void workPlain(int sheet, int last) {
             int base = sheet * MOST_STEPS;
-            for (int step = 0; step < told.stepCount; step++) {
+            for (int step = 0; step <= last; step++) {
                 plain[base + step] = made(plain, sheet, told.steps[step], NONE, 0);
             }
         }
