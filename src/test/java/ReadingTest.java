@@ -88,6 +88,8 @@ public final class ReadingTest {
         good(1, SUM);
         good(1, "row\nabcdefgh has3 from-5 to-5;sum s of abcdefgh;");
         good(1, "row r has 0003 from - 0 to 05;sum s of r;");
+        good(5, "row a has 1 from 0 to 0;sum aa of a;sum aaa of a;sum abcdefgh of a;sum bbcdefgh of a;sum z of a;");
+        good(2, "row r has 1 from 0 to 0;sum ends of r;most rowa of r;");
         NearEnough x = Check.told(SUM + "end s off 1 one;");
         x.sheet(true);
         x.change(0, 1, 1, 1);
@@ -117,6 +119,8 @@ public final class ReadingTest {
         fault(1, "row r |" + (char) 0);
         fault(1, "row |abcdefghi has 3");
         fault(1, "row r has |3from 0 to 5;");
+        fault(1, "row r has |3a");
+        fault(1, "row r has |3z");
         fault(1, "row r has |12345 from 0 to 5;");
         fault(1, "row r has |00003 from 0 to 5;");
         fault(1, "row r has |9x from 0 to 5;");

@@ -29,6 +29,7 @@ public final class WorkingTest {
         errorsOfSteps();
         errorsOfPicks();
         barring();
+        barringAtTheEdge();
         offs();
         measuring();
         means();
@@ -340,6 +341,25 @@ public final class WorkingTest {
         Check.due("let of a BARRED one", y.let(1), 0);
         Check.due("saved of a BARRED one", y.saved(1), 0);
         Check.due("ticks of a BARRED one", y.ticks(1), 3);
+    }
+
+    private static void barringAtTheEdge() {
+        // STEPS: 0 a, 1 b, 2 c, 3 d of 0 .. 1000000000, 4 z of 0 .. 0, 5 x, 6 p, 7 q.
+        NearEnough x = Check.told("row r has 1 from 0 to 100;sum a of r;times b a a;times c b b;"
+                + "scale d c by 10 over 1;scale z a by 0 over 1;most x of r;pick p d z if a under a;less q p x;");
+        x.change(6, USUAL, 1, 0);
+        x.change(6, USUAL, 0, 0);
+        x.change(5, LEFT, 0, 0);
+        span(x, 7, 1, -1000000000, 0);
+        span(x, 7, 2, 0, 1000000000);
+        Check.due("just not beyond", x.barred(1), NONE);
+        Check.due("just not beyond", x.barred(2), NONE);
+        Check.due("beyond below", x.barred(5), 7);
+        Check.due("beyond above", x.barred(6), 7);
+        NearEnough y = Check.told("row r has 2 from -5 to 0;sum s of r;at a r place s;");
+        y.change(0, SHORT, 1, 0);
+        span(y, 0, 0, 0, 0);
+        Check.due("0 .. 5 errs, too", y.barred(1), 1);
     }
 
     private static void offs() {
