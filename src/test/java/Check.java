@@ -62,4 +62,42 @@ final class Check {
         }
         return x;
     }
+
+    /** The text has a | where its FAULT is due. */
+    static void fault(int number, String marked) {
+        int place = marked.indexOf('|');
+        String text = marked.substring(0, place) + marked.substring(place + 1);
+        NearEnough x = taped(text);
+        due("program of " + text, x.program(), NearEnough.NONE);
+        due("fault of " + text, x.fault(0), number);
+        due("its place in " + text, x.fault(1), place);
+        due("bytes that stay of " + text, x.about(7), text.length());
+    }
+
+    /** A PROGRAM that has no FAULT and so many STEPS. */
+    static NearEnough good(int steps, String text) {
+        NearEnough x = taped(text);
+        due("program of " + text, x.program(), steps);
+        due("fault of " + text, x.fault(0), 0);
+        due("no place of a fault in " + text, x.fault(1), NearEnough.NONE);
+        due("bytes left of " + text, x.about(7), 0);
+        return x;
+    }
+
+    static void spanOf(NearEnough x, int step, long low, long high) {
+        due("least of STEP " + step, x.span(step, false), low);
+        due("greatest of STEP " + step, x.span(step, true), high);
+    }
+
+    static void errorOf(NearEnough x, int step, int choice, long low, long high) {
+        due("e of STEP " + step + " by " + choice, x.error(step, choice, false), low);
+        due("f of STEP " + step + " by " + choice, x.error(step, choice, true), high);
+    }
+
+    /** Puts numbers into a ROW of a SHEET, from its first place on. */
+    static void fill(NearEnough x, int sheet, int row, int... numbers) {
+        for (int place = 0; place < numbers.length; place++) {
+            due("put " + numbers[place], x.put(sheet, row, place, numbers[place]), true);
+        }
+    }
 }

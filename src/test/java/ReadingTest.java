@@ -23,25 +23,6 @@ public final class ReadingTest {
         Check.finish();
     }
 
-    /** The text has a | where its FAULT is due. */
-    private static void fault(int number, String marked) {
-        int place = marked.indexOf('|');
-        String text = marked.substring(0, place) + marked.substring(place + 1);
-        NearEnough x = Check.taped(text);
-        Check.due("program of " + text, x.program(), NearEnough.NONE);
-        Check.due("fault of " + text, x.fault(0), number);
-        Check.due("its place in " + text, x.fault(1), place);
-        Check.due("bytes that stay of " + text, x.about(7), text.length());
-    }
-
-    private static void good(int steps, String text) {
-        NearEnough x = Check.taped(text);
-        Check.due("program of " + text, x.program(), steps);
-        Check.due("fault of " + text, x.fault(0), 0);
-        Check.due("no place of a fault in " + text, x.fault(1), NearEnough.NONE);
-        Check.due("bytes left of " + text, x.about(7), 0);
-    }
-
     private static void newObject() {
         NearEnough x = new NearEnough();
         for (int what = 0; what < 8; what++) {
@@ -82,14 +63,14 @@ public final class ReadingTest {
     }
 
     private static void programs() {
-        good(0, "");
-        good(0, " \n ");
-        good(0, ROW);
-        good(1, SUM);
-        good(1, "row\nabcdefgh has3 from-5 to-5;sum s of abcdefgh;");
-        good(1, "row r has 0003 from - 0 to 05;sum s of r;");
-        good(5, "row a has 1 from 0 to 0;sum aa of a;sum aaa of a;sum abcdefgh of a;sum bbcdefgh of a;sum z of a;");
-        good(2, "row r has 1 from 0 to 0;sum ends of r;most rowa of r;");
+        Check.good(0, "");
+        Check.good(0, " \n ");
+        Check.good(0, ROW);
+        Check.good(1, SUM);
+        Check.good(1, "row\nabcdefgh has3 from-5 to-5;sum s of abcdefgh;");
+        Check.good(1, "row r has 0003 from - 0 to 05;sum s of r;");
+        Check.good(5, "row a has 1 from 0 to 0;sum aa of a;sum aaa of a;sum abcdefgh of a;sum bbcdefgh of a;sum z of a;");
+        Check.good(2, "row r has 1 from 0 to 0;sum ends of r;most rowa of r;");
         NearEnough x = Check.told(SUM + "end s off 1 one;");
         x.sheet(true);
         x.change(0, 1, 1, 1);
@@ -113,121 +94,121 @@ public final class ReadingTest {
     }
 
     private static void faultsOfTokens() {
-        fault(1, "|R");
-        fault(1, "row r|\thas");
-        fault(1, "row |" + (char) 233 + "r has");
-        fault(1, "row r |" + (char) 0);
-        fault(1, "row |abcdefghi has 3");
-        fault(1, "row r has |3from 0 to 5;");
-        fault(1, "row r has |3a");
-        fault(1, "row r has |3z");
-        fault(1, "row r has |12345 from 0 to 5;");
-        fault(1, "row r has |00003 from 0 to 5;");
-        fault(1, "row r has |9x from 0 to 5;");
-        fault(1, "row r has 3 from -|5x to 5;");
-        fault(1, SUM + "end s off |10000 one;");
-        fault(1, SUM + "|?");
+        Check.fault(1, "|R");
+        Check.fault(1, "row r|\thas");
+        Check.fault(1, "row |" + (char) 233 + "r has");
+        Check.fault(1, "row r |" + (char) 0);
+        Check.fault(1, "row |abcdefghi has 3");
+        Check.fault(1, "row r has |3from 0 to 5;");
+        Check.fault(1, "row r has |3a");
+        Check.fault(1, "row r has |3z");
+        Check.fault(1, "row r has |12345 from 0 to 5;");
+        Check.fault(1, "row r has |00003 from 0 to 5;");
+        Check.fault(1, "row r has |9x from 0 to 5;");
+        Check.fault(1, "row r has 3 from -|5x to 5;");
+        Check.fault(1, SUM + "end s off |10000 one;");
+        Check.fault(1, SUM + "|?");
     }
 
     private static void faultsOfPlaces() {
-        fault(2, "|x");
-        fault(2, "|;");
-        fault(2, "|5");
-        fault(2, "|-");
-        fault(2, "|has");
-        fault(2, "row |row has 3");
-        fault(2, "row |one has 3");
-        fault(2, "row |place has 3");
-        fault(2, "row |5");
-        fault(2, "row r |5");
-        fault(2, "row r |of");
-        fault(2, "row r has |x");
-        fault(2, "row r has |-3");
-        fault(2, "row r has 3 from -|-5");
-        fault(2, "row r has 3 from - |to");
-        fault(2, "row r has 3 from 0 to 5|");
-        fault(2, "row r has 3 from 0 to 5 \n|");
-        fault(2, "row|");
-        fault(2, ROW + "|rowr");
-        fault(2, ROW.replace(";", " |row"));
-        fault(2, SUM + "end s off |-1 one;");
-        fault(2, SUM + "end s off 1 |two;");
-        fault(2, SUM + "end s off 1 |;");
-        fault(2, SUM + "end s off 1 |off;");
-        fault(2, SUM + "add t s s |s;");
-        fault(2, SUM + "scale t s by 1 over |-1;");
-        fault(2, SUM + "pick p s s |under s");
-        fault(2, SUM + "pick p s s if s |if");
-        fault(2, SUM + "at a r |of s");
-        fault(2, SUM + "sum |sum of r;");
+        Check.fault(2, "|x");
+        Check.fault(2, "|;");
+        Check.fault(2, "|5");
+        Check.fault(2, "|-");
+        Check.fault(2, "|has");
+        Check.fault(2, "row |row has 3");
+        Check.fault(2, "row |one has 3");
+        Check.fault(2, "row |place has 3");
+        Check.fault(2, "row |5");
+        Check.fault(2, "row r |5");
+        Check.fault(2, "row r |of");
+        Check.fault(2, "row r has |x");
+        Check.fault(2, "row r has |-3");
+        Check.fault(2, "row r has 3 from -|-5");
+        Check.fault(2, "row r has 3 from - |to");
+        Check.fault(2, "row r has 3 from 0 to 5|");
+        Check.fault(2, "row r has 3 from 0 to 5 \n|");
+        Check.fault(2, "row|");
+        Check.fault(2, ROW + "|rowr");
+        Check.fault(2, ROW.replace(";", " |row"));
+        Check.fault(2, SUM + "end s off |-1 one;");
+        Check.fault(2, SUM + "end s off 1 |two;");
+        Check.fault(2, SUM + "end s off 1 |;");
+        Check.fault(2, SUM + "end s off 1 |off;");
+        Check.fault(2, SUM + "add t s s |s;");
+        Check.fault(2, SUM + "scale t s by 1 over |-1;");
+        Check.fault(2, SUM + "pick p s s |under s");
+        Check.fault(2, SUM + "pick p s s if s |if");
+        Check.fault(2, SUM + "at a r |of s");
+        Check.fault(2, SUM + "sum |sum of r;");
     }
 
     private static void faultsOfNames() {
-        fault(3, ROW + "row |r has 9");
-        fault(3, ROW + "sum |r of r;");
-        fault(3, SUM + "most |s of r;");
-        fault(3, SUM + "row |s has");
-        fault(3, SUM + "end s off 1 one; end |s off 2 one;");
-        fault(5, "sum s of |r;");
-        fault(5, SUM + "sum t of |s;");
-        fault(5, SUM + "add t |r s;");
-        fault(5, SUM + "add t s |t;");
-        fault(5, SUM + "at t |s place s;");
-        fault(5, SUM + "at t r place |r;");
-        fault(5, SUM + "scale t |u by 1 over 0;");
-        fault(5, SUM + "pick p |x s if s under s;");
-        fault(5, SUM + "pick p s |x if s under s;");
-        fault(5, SUM + "pick p s s if |x under s;");
-        fault(5, SUM + "pick p s s if s under |x;");
-        fault(5, SUM + "end |r off 1 one;");
-        fault(5, SUM + "end |t off 1 one;");
+        Check.fault(3, ROW + "row |r has 9");
+        Check.fault(3, ROW + "sum |r of r;");
+        Check.fault(3, SUM + "most |s of r;");
+        Check.fault(3, SUM + "row |s has");
+        Check.fault(3, SUM + "end s off 1 one; end |s off 2 one;");
+        Check.fault(5, "sum s of |r;");
+        Check.fault(5, SUM + "sum t of |s;");
+        Check.fault(5, SUM + "add t |r s;");
+        Check.fault(5, SUM + "add t s |t;");
+        Check.fault(5, SUM + "at t |s place s;");
+        Check.fault(5, SUM + "at t r place |r;");
+        Check.fault(5, SUM + "scale t |u by 1 over 0;");
+        Check.fault(5, SUM + "pick p |x s if s under s;");
+        Check.fault(5, SUM + "pick p s |x if s under s;");
+        Check.fault(5, SUM + "pick p s s if |x under s;");
+        Check.fault(5, SUM + "pick p s s if s under |x;");
+        Check.fault(5, SUM + "end |r off 1 one;");
+        Check.fault(5, SUM + "end |t off 1 one;");
     }
 
     private static void faultsOfNumbers() {
-        fault(4, "row r has |7");
-        fault(4, "row r has |0 from");
-        fault(4, "row r has 3 from |1000 to 5;");
-        fault(4, "row r has 3 from |-1000 to 5;");
-        fault(4, "row r has 3 from |- 1000 to 5;");
-        fault(4, "row r has 3 from 5 to |4;");
-        fault(4, "row r has 3 from -5 to |-6;");
-        fault(4, "row r has 3 from -5 to |1000;");
-        fault(4, SUM + "scale t s by |100 over 1;");
-        fault(4, SUM + "scale t s by |-100 over 1;");
-        fault(4, SUM + "scale t s by -99 over |0;");
-        fault(4, SUM + "scale t s by 99 over |100;");
-        good(0, "row r has 6 from -999 to -999; row q has 1 from 999 to 999;");
-        good(2, SUM + "scale t s by -99 over 99; end t off 9999 mean; end s off 0 never;");
+        Check.fault(4, "row r has |7");
+        Check.fault(4, "row r has |0 from");
+        Check.fault(4, "row r has 3 from |1000 to 5;");
+        Check.fault(4, "row r has 3 from |-1000 to 5;");
+        Check.fault(4, "row r has 3 from |- 1000 to 5;");
+        Check.fault(4, "row r has 3 from 5 to |4;");
+        Check.fault(4, "row r has 3 from -5 to |-6;");
+        Check.fault(4, "row r has 3 from -5 to |1000;");
+        Check.fault(4, SUM + "scale t s by |100 over 1;");
+        Check.fault(4, SUM + "scale t s by |-100 over 1;");
+        Check.fault(4, SUM + "scale t s by -99 over |0;");
+        Check.fault(4, SUM + "scale t s by 99 over |100;");
+        Check.good(0, "row r has 6 from -999 to -999; row q has 1 from 999 to 999;");
+        Check.good(2, SUM + "scale t s by -99 over 99; end t off 9999 mean; end s off 0 never;");
     }
 
     private static void faultsOfSpans() {
-        fault(7, WIDE + "times |z q q;");
-        fault(7, WIDE + "times |z q q");
-        fault(7, WIDE + "times |z q q ?");
-        fault(7, WIDE + "scale |z q by -99 over 1;");
-        fault(4, WIDE + "scale z q by 99 over |0;");
-        fault(5, WIDE + "times z q |z;");
-        fault(3, WIDE + "times |q q q;");
+        Check.fault(7, WIDE + "times |z q q;");
+        Check.fault(7, WIDE + "times |z q q");
+        Check.fault(7, WIDE + "times |z q q ?");
+        Check.fault(7, WIDE + "scale |z q by -99 over 1;");
+        Check.fault(4, WIDE + "scale z q by 99 over |0;");
+        Check.fault(5, WIDE + "times z q |z;");
+        Check.fault(3, WIDE + "times |q q q;");
         String edge = "row r has 1 from 0 to 100;sum a of r;times b a a;times c b b;";
-        good(5, edge + "scale d c by 10 over 1;scale e c by -10 over 1;");
-        fault(7, edge + "scale d c by 10 over 1;add |f d a;");
-        fault(7, edge + "scale e c by -10 over 1;less |f e a;");
-        fault(7, edge + "scale |d c by 11 over 1;");
+        Check.good(5, edge + "scale d c by 10 over 1;scale e c by -10 over 1;");
+        Check.fault(7, edge + "scale d c by 10 over 1;add |f d a;");
+        Check.fault(7, edge + "scale e c by -10 over 1;less |f e a;");
+        Check.fault(7, edge + "scale |d c by 11 over 1;");
     }
 
     private static void limits() {
         String one = "row a has 1 from 0 to 0;row b has 1 from 0 to 0;";
-        good(0, one);
-        fault(2, one + "|row c has 1 from 0 to 0;");
+        Check.good(0, one);
+        Check.fault(2, one + "|row c has 1 from 0 to 0;");
         StringBuilder steps = new StringBuilder(ROW);
         for (int i = 0; i < 12; i++) {
             steps.append("sum s").append((char) ('a' + i)).append(" of r;");
         }
-        good(12, steps.toString());
-        fault(2, steps + "|most m of r;");
+        Check.good(12, steps.toString());
+        Check.fault(2, steps + "|most m of r;");
         String ends = steps + "end sa off 1 one;end sb off 1 one;end sc off 1 one;end sd off 1 one;";
-        good(12, ends);
-        fault(2, ends + "|end se off 1 one;");
+        Check.good(12, ends);
+        Check.fault(2, ends + "|end se off 1 one;");
         NearEnough x = Check.told(ends);
         Check.due("ENDS", x.about(2), 4);
         Check.due("STEPS", x.about(1), 12);
@@ -244,28 +225,23 @@ public final class ReadingTest {
         Check.due("nor a place", x.fault(1), NearEnough.NONE);
     }
 
-    private static void span(NearEnough x, int step, int low, int high) {
-        Check.due("least of STEP " + step, x.span(step, false), low);
-        Check.due("greatest of STEP " + step, x.span(step, true), high);
-    }
-
     private static void spans() {
         NearEnough x = Check.told("row r has 3 from -2 to 5;row q has 2 from -7 to -3;sum s of r;sum t of q;"
                 + "most m of q;at a r place t;add b s t;less c s t;times d s t;scale e s by -3 over 2;"
                 + "scale f s by 1 over 4;pick g a m if s under t;times h s s;");
-        span(x, 0, -6, 15);
-        span(x, 1, -14, -6);
-        span(x, 2, -7, -3);
-        span(x, 3, -2, 5);
-        span(x, 4, -20, 9);
-        span(x, 5, 0, 29);
-        span(x, 6, -210, 84);
-        span(x, 7, -22, 9);
-        span(x, 8, -1, 3);
-        span(x, 9, -7, 5);
-        span(x, 10, -90, 225);
-        span(x, 11, 0, 0);
-        span(x, -1, 0, 0);
-        span(x, Integer.MAX_VALUE, 0, 0);
+        Check.spanOf(x, 0, -6, 15);
+        Check.spanOf(x, 1, -14, -6);
+        Check.spanOf(x, 2, -7, -3);
+        Check.spanOf(x, 3, -2, 5);
+        Check.spanOf(x, 4, -20, 9);
+        Check.spanOf(x, 5, 0, 29);
+        Check.spanOf(x, 6, -210, 84);
+        Check.spanOf(x, 7, -22, 9);
+        Check.spanOf(x, 8, -1, 3);
+        Check.spanOf(x, 9, -7, 5);
+        Check.spanOf(x, 10, -90, 225);
+        Check.spanOf(x, 11, 0, 0);
+        Check.spanOf(x, -1, 0, 0);
+        Check.spanOf(x, Integer.MAX_VALUE, 0, 0);
     }
 }

@@ -38,17 +38,11 @@ public final class WorkingTest {
         Check.finish();
     }
 
-    private static void fill(NearEnough x, int sheet, int row, int... numbers) {
-        for (int place = 0; place < numbers.length; place++) {
-            Check.due("put " + numbers[place], x.put(sheet, row, place, numbers[place]), true);
-        }
-    }
-
     private static NearEnough filled() {
         NearEnough x = Check.told(TEXT);
         x.sheet(false);
-        fill(x, 0, 0, 9, -3, 4, 0, -4);
-        fill(x, 0, 1, 3, 2);
+        Check.fill(x, 0, 0, 9, -3, 4, 0, -4);
+        Check.fill(x, 0, 1, 3, 2);
         return x;
     }
 
@@ -57,11 +51,6 @@ public final class WorkingTest {
         NearEnough x = filled();
         Check.due("change " + step + " " + kind + " " + n, x.change(step, kind, n, 1), 0);
         return x;
-    }
-
-    private static void span(NearEnough x, int step, int choice, long low, long high) {
-        Check.due("e of STEP " + step + " by " + choice, x.error(step, choice, false), low);
-        Check.due("f of STEP " + step + " by " + choice, x.error(step, choice, true), high);
     }
 
     private static void sheets() {
@@ -76,7 +65,7 @@ public final class WorkingTest {
         Check.due("a SHEET without a PROGRAM", none.sheet(false), 0);
         NearEnough again = Check.told(SMALL);
         again.sheet(false);
-        fill(again, 0, 0, 7, 8);
+        Check.fill(again, 0, 0, 7, 8);
         Check.tape(again, Check.bytes(SMALL));
         again.program();
         again.sheet(false);
@@ -184,7 +173,7 @@ public final class WorkingTest {
         Check.due("what comes behind, p", y.value(7, 0, 1), -7);
         NearEnough cut = Check.told("row r has 3 from -9 to 9;sum s of r;scale z s by 7 over 3;");
         cut.sheet(false);
-        fill(cut, 0, 0, -5, 9, -2);
+        Check.fill(cut, 0, 0, -5, 9, -2);
         cut.change(0, SKIP, 2, 0);
         Check.due("SKIP is cut towards 0", cut.value(0, 0, 1), -10);
         Check.due("scale is cut towards 0", cut.value(1, 0, 1), -23);
@@ -211,7 +200,7 @@ public final class WorkingTest {
     private static void places() {
         NearEnough x = Check.told("row r has 4 from -9 to 9;row q has 1 from -9 to 9;sum i of q;at a r place i;");
         x.sheet(false);
-        fill(x, 0, 0, 5, 6, 7, 8);
+        Check.fill(x, 0, 0, 5, 6, 7, 8);
         int[] places = {0, 1, 4, 5, 9, -1, -4, -5, -9};
         int[] due = {5, 6, 5, 6, 6, 8, 5, 8, 8};
         for (int i = 0; i < places.length; i++) {
@@ -238,8 +227,8 @@ public final class WorkingTest {
 
     private static void error(int step, int kind, int n, long low, long high) {
         NearEnough x = changed(step, kind, n);
-        span(x, step, 1, low, high);
-        span(x, step, 0, 0, 0);
+        Check.errorOf(x, step, 1, low, high);
+        Check.errorOf(x, step, 0, 0, 0);
     }
 
     private static void errorsOfRows() {
@@ -264,10 +253,10 @@ public final class WorkingTest {
         NearEnough one = Check.told("row r has 1 from 3 to 3;sum s of r;scale h s by 2 over 1;");
         one.change(0, SKIP, 2, 0);
         one.change(0, LEFT, 0, 0);
-        span(one, 0, 1, -1, 1);
-        span(one, 0, 2, 0, 0);
-        span(one, 1, 2, 0, 0);
-        span(one, 1, 1, -3, 3);
+        Check.errorOf(one, 0, 1, -1, 1);
+        Check.errorOf(one, 0, 2, 0, 0);
+        Check.errorOf(one, 1, 2, 0, 0);
+        Check.errorOf(one, 1, 1, -3, 3);
     }
 
     private static void errorsOfSteps() {
@@ -277,24 +266,24 @@ public final class WorkingTest {
         x.change(0, SKIP, 2, 0);
         x.change(6, BITS, 2, 0);
         x.change(6, LEFT, 0, 0);
-        span(x, 6, 1, -20, 0);
-        span(x, 6, 2, 0, 3);
-        span(x, 6, 3, -20, 3);
-        span(x, 6, 11, -23, 3);
-        span(x, 6, 19, -39, 39);
-        span(x, 4, 1, -1, 11);
-        span(x, 4, 4, -15, 15);
-        span(x, 4, 2, 0, 0);
-        span(x, 5, 2, -18, 0);
+        Check.errorOf(x, 6, 1, -20, 0);
+        Check.errorOf(x, 6, 2, 0, 3);
+        Check.errorOf(x, 6, 3, -20, 3);
+        Check.errorOf(x, 6, 11, -23, 3);
+        Check.errorOf(x, 6, 19, -39, 39);
+        Check.errorOf(x, 4, 1, -1, 11);
+        Check.errorOf(x, 4, 4, -15, 15);
+        Check.errorOf(x, 4, 2, 0, 0);
+        Check.errorOf(x, 5, 2, -18, 0);
         NearEnough y = Check.told("row r has 2 from -3 to 4;most m of r;sum s of r;times t m s;add u m s;"
                 + "scale z m by 0 over 5;times v m m;");
         y.change(0, BITS, 1, 0);
         y.change(1, BITS, 2, 0);
-        span(y, 2, 3, -12 - 8 + 0, 9 + 6 + 3);
-        span(y, 3, 3, -4, 0);
-        span(y, 4, 1, -1, 1);
-        span(y, 4, 2, 0, 0);
-        span(y, 5, 1, -4 - 4 + 0, 3 + 3 + 1);
+        Check.errorOf(y, 2, 3, -12 - 8 + 0, 9 + 6 + 3);
+        Check.errorOf(y, 3, 3, -4, 0);
+        Check.errorOf(y, 4, 1, -1, 1);
+        Check.errorOf(y, 4, 2, 0, 0);
+        Check.errorOf(y, 5, 1, -4 - 4 + 0, 3 + 3 + 1);
     }
 
     private static void errorsOfPicks() {
@@ -303,16 +292,16 @@ public final class WorkingTest {
         error(7, BITS, 2, -3, 0);
         error(7, LEFT, 0, -34, 33);
         NearEnough x = changed(1, COARSE, 4);
-        span(x, 7, 1, -67, 67);
+        Check.errorOf(x, 7, 1, -67, 67);
         x.change(4, BITS, 3, 0);
-        span(x, 7, 2, -7, 0);
-        span(x, 7, 3, -74, 67);
+        Check.errorOf(x, 7, 2, -7, 0);
+        Check.errorOf(x, 7, 3, -74, 67);
         x.change(7, USUAL, 1, 0);
-        span(x, 7, 6, -74, 30);
-        span(x, 7, 5, -67, 30);
+        Check.errorOf(x, 7, 6, -74, 30);
+        Check.errorOf(x, 7, 5, -67, 30);
         x.change(0, BITS, 1, 0);
-        span(x, 4, 8, -1, 2);
-        span(x, 7, 8, -1, 2);
+        Check.errorOf(x, 4, 8, -1, 2);
+        Check.errorOf(x, 7, 8, -1, 2);
     }
 
     private static void barring() {
@@ -350,15 +339,15 @@ public final class WorkingTest {
         x.change(6, USUAL, 1, 0);
         x.change(6, USUAL, 0, 0);
         x.change(5, LEFT, 0, 0);
-        span(x, 7, 1, -1000000000, 0);
-        span(x, 7, 2, 0, 1000000000);
+        Check.errorOf(x, 7, 1, -1000000000, 0);
+        Check.errorOf(x, 7, 2, 0, 1000000000);
         Check.due("just not beyond", x.barred(1), NONE);
         Check.due("just not beyond", x.barred(2), NONE);
         Check.due("beyond below", x.barred(5), 7);
         Check.due("beyond above", x.barred(6), 7);
         NearEnough y = Check.told("row r has 2 from -5 to 0;sum s of r;at a r place s;");
         y.change(0, SHORT, 1, 0);
-        span(y, 0, 0, 0, 0);
+        Check.errorOf(y, 0, 0, 0, 0);
         Check.due("0 .. 5 errs, too", y.barred(1), 1);
     }
 
@@ -377,7 +366,7 @@ public final class WorkingTest {
         Check.due("no CHOICE", x.off(0, 8), NONE);
         NearEnough y = Check.told("row r has 3 from -9 to 2;sum s of r;end s off 0 never;");
         y.change(0, SHORT, 1, 0);
-        span(y, 0, 1, -4, 18);
+        Check.errorOf(y, 0, 1, -4, 18);
         Check.due("f is the greater", y.off(0, 1), 18);
     }
 
@@ -389,11 +378,11 @@ public final class WorkingTest {
         int[] second = {4, 7, 5, 9, 4, 0};
         for (int sheet = 0; sheet < second.length; sheet++) {
             x.sheet(sheet % 2 == 1);
-            fill(x, sheet, 0, 1, second[sheet]);
+            Check.fill(x, sheet, 0, 1, second[sheet]);
         }
         Check.due("measured", x.measured(0, 1), 5);
         Check.due("passed", x.passed(0, 1), 2);
-        fill(x, 2, 0, 1, 7);
+        Check.fill(x, 2, 0, 1, 7);
         Check.due("a like one does not pass", x.passed(0, 1), 1);
         Check.due("measured by none", x.measured(0, 0), 0);
         Check.due("passed by none", x.passed(0, 0), 0);
@@ -410,7 +399,7 @@ public final class WorkingTest {
         int[] second = {4, 7, 5, 2, 4, 0};
         for (int sheet = 0; sheet < second.length; sheet++) {
             x.sheet(sheet % 2 == 1);
-            fill(x, sheet, 0, 1, second[sheet]);
+            Check.fill(x, sheet, 0, 1, second[sheet]);
         }
         Check.due("upper part of 22 / 6", x.mean(0, 1, 0), 11);
         Check.due("lower part", x.mean(0, 1, 1), 3);
@@ -471,7 +460,7 @@ public final class WorkingTest {
         Check.due("without SHEETS", x.let(1), 1);
         x.sheet(true);
         x.sheet(false);
-        fill(x, 0, 0, 0, 6);
+        Check.fill(x, 0, 0, 0, 6);
         Check.due("6 of 6", x.let(1), 1);
         x.put(1, 0, 1, 1);
         Check.due("7 of 6", x.let(1), 0);
