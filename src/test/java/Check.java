@@ -46,6 +46,10 @@ final class Check {
         return text.getBytes(StandardCharsets.ISO_8859_1);
     }
 
+    static String text(byte[] bytes) {
+        return new String(bytes, StandardCharsets.ISO_8859_1);
+    }
+
     /** A new object with a text on its TAPE. */
     static NearEnough taped(String text) {
         NearEnough x = new NearEnough();

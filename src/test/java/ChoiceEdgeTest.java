@@ -127,6 +127,10 @@ public final class ChoiceEdgeTest {
             changed(one, 0, Kind.BITS, 1 + change % 10, change == 4 || change == 7 ? 999 : 998);
         }
         Check.due("one of one STEP, the least of like ones", one.best(), 1 << 4);
+        for (int change = 0; change < 12; change++) {
+            one.let(1 << change);
+            Check.due("whatever was asked ahead", one.best(), 1 << 4);
+        }
     }
 
     private static void pair(NearEnough x, int end, int i, long off, long saved) {
@@ -168,6 +172,11 @@ public final class ChoiceEdgeTest {
         changed(x, 0, Kind.BITS, 2, 11);
         Check.due("of like OFF the one that saves more", x.front(0), 3);
         pair(x, 0, 1, 3, 11);
+        changed(x, 0, Kind.BITS, 2, 5);
+        changed(x, 0, Kind.BITS, 3, 1);
+        Check.due("not the one that saves less", x.front(0), 3);
+        pair(x, 0, 1, 3, 11);
+        pair(x, 0, 2, 7, 20);
         changed(x, 0, Kind.COARSE, 4, 20);
         Check.due("of like saves the one that is less off", x.front(0), 3);
         pair(x, 0, 1, 3, 11);
@@ -282,6 +291,14 @@ public final class ChoiceEdgeTest {
         x.guard(0, 1, 0);
         Check.due("two GUARDS turn one SHEET back once", x.turned(0, 0), 2);
         Check.due("9 and 9 do not differ", x.turned(0, choice), 1);
+        NearEnough three = Check.told(TWO + "add t s m;end s off 0 one;end m off 0 one;");
+        three.sheet(false);
+        Check.fill(three, 0, 0, 3, 8);
+        three.guard(0, 2, 0);
+        Check.due("s and t differ", three.turned(0, 0), 1);
+        Check.due("m and t, too, but it is no GUARD of m", three.turned(1, 0), 0);
+        int shorter = changed(three, 1, Kind.SHORT, 1, 0);
+        Check.due("so m gets through", three.through(1, shorter), 1);
     }
 
     /** The least and the greatest number of a GUARD, and the END's own STEP. */
@@ -312,7 +329,7 @@ public final class ChoiceEdgeTest {
         int choice = changed(x, 0, Kind.SHORT, 1, 0);
         Check.due("no SHEETS", x.through(0, choice), 0);
         Check.due("no SHEETS", x.turned(0, choice), 0);
-        int[] second = {3, 4, -3, -4, 9, 0};
+        int[] second = {4, 3, -3, 0, 9, -4};
         for (int sheet = 0; sheet < second.length; sheet++) {
             x.sheet(sheet % 2 == 0);
             Check.fill(x, sheet, 0, 0, second[sheet]);
@@ -573,6 +590,15 @@ public final class ChoiceEdgeTest {
         Check.fill(x, 0, 0, 0, 0);
         plan(x, 0, 5, choice);
         x.sheet(true);
+        Check.fill(x, 0, 0, 0, 401);
+        Check.fill(x, 1, 0, 0, 7);
+        plan(x, 6, 0, 0, 0);
+        plan(x, 7, 5, 0, choice);
+        plan(x, 400, 5, 0, choice);
+        Check.fill(x, 0, 0, 0, 7);
+        Check.fill(x, 1, 0, 0, -401);
+        plan(x, 6, 0, 0, 0);
+        plan(x, 400, 5, choice, 0);
         Check.fill(x, 0, 0, 0, 150);
         Check.fill(x, 1, 0, 0, -250);
         plan(x, 400, 10, choice, choice);

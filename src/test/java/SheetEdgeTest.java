@@ -32,6 +32,7 @@ public final class SheetEdgeTest {
         spansOfSkip();
         spansOfShortAndOld();
         spansOfBitsAndCoarse();
+        spansOfAddAndLess();
         spansOfScales();
         spansOfTimes();
         spansOfPicks();
@@ -384,6 +385,19 @@ public final class SheetEdgeTest {
                 Check.due("at " + place + " of " + has, x.value(1, 0, 0), Math.floorMod(place, has) + 1);
             }
         }
+        NearEnough second = Check.told("row r has 3 from 0 to 9;row q has 4 from 10 to 19;sum i of r;at a q place i;most m of q;"
+                + "sum s of q;");
+        second.sheet(false);
+        second.sheet(false);
+        Check.fill(second, 1, 1, 10, 13, 15, 18);
+        int[] due = {10, 13, 15, 18, 10};
+        for (int place = 0; place < due.length; place++) {
+            Check.fill(second, 1, 0, place, 0, 0);
+            Check.due("at " + place + " of ROW 1", second.value(1, 1, 0), due[place]);
+        }
+        Check.due("most of ROW 1", second.value(2, 1, 0), 18);
+        Check.due("sum of ROW 1", second.value(3, 1, 0), 56);
+        Check.due("at of the first SHEET", second.value(1, 0, 0), 10);
     }
 
     /** "Scale (cut towards 0)." */
@@ -517,6 +531,23 @@ public final class SheetEdgeTest {
         int choice = changed(above, 0, Kind.BITS, 3) | changed(above, 2, Kind.BITS, 1);
         Check.errorOf(above, 1, choice, -7, 7);
         Check.errorOf(above, 2, choice, -8, 14);
+    }
+
+    /** "Add: both together. Less: e less the other's f, f less the other's e." */
+    private static void spansOfAddAndLess() {
+        // By SHORT s errs by -18 .. 8, t by -3 .. 6; STEPS: 0 s, 1 t, 2 b, 3 c, 4 d, 5 f.
+        NearEnough x = Check.told("row r has 3 from -4 to 9;row q has 4 from -2 to 1;sum s of r;sum t of q;add b s t;"
+                + "less c s t;less d t s;add f t t;");
+        int s = changed(x, 0, Kind.SHORT, 1);
+        int t = changed(x, 1, Kind.SHORT, 1);
+        Check.errorOf(x, 2, s, -18, 8);
+        Check.errorOf(x, 2, t, -3, 6);
+        Check.errorOf(x, 2, s | t, -21, 14);
+        Check.errorOf(x, 3, s, -18, 8);
+        Check.errorOf(x, 3, t, -6, 3);
+        Check.errorOf(x, 3, s | t, -24, 11);
+        Check.errorOf(x, 4, s | t, -11, 24);
+        Check.errorOf(x, 5, t, -6, 12);
     }
 
     /** "Scale: 0 .. 0 if nothing errs, else .. rounded down, less 1, and rounded up, more 1." */

@@ -1,3 +1,5 @@
+import java.util.Arrays;
+
 /** Each sentence on the TAPE, the PROGRAM, its FAULTS and SPANS that names a bound: promises 1 to 6 and their terms. */
 public final class TextEdgeTest {
     private static final int NONE = NearEnough.NONE;
@@ -19,7 +21,9 @@ public final class TextEdgeTest {
         fedBytesComeHighestFirst();
         noMoreThanThousandAreFed();
         theTapeHasItsFirstBytes();
+        theBytesBehindAreGone();
         theTapeIsEmptyThen();
+        theOldSheetsAreGone();
         aFaultLeavesAll();
         theLatestFault();
         wordsOfLettersEightAtMost();
@@ -27,6 +31,8 @@ public final class TextEdgeTest {
         onlyTwoSignsAndTwoBlanks();
         noLetterBehindANumber();
         ownWordsAreNoNames();
+        namesThatDiffer();
+        tokensThatCanNotStandThere();
         twoRows();
         twelveSteps();
         fourEnds();
@@ -166,6 +172,35 @@ public final class TextEdgeTest {
         Check.due("has 0 bytes", x.end(0), 0);
     }
 
+    /** A TAPE that was cut is like one that never had more: each beginning of a text, told in both ways. */
+    private static void theBytesBehindAreGone() {
+        String text = "row rr has 12 from -10 to 20;sum ss of rr;scale tt ss by -99 over 99;end tt off 100 never;";
+        for (int n = 0; n <= text.length(); n++) {
+            NearEnough cut = Check.taped(text);
+            cut.end(n);
+            NearEnough like = Check.taped(text.substring(0, n));
+            Check.due("program of the first " + n, cut.program(), like.program());
+            Check.due("its fault", cut.fault(0), like.fault(0));
+            Check.due("its place", cut.fault(1), like.fault(1));
+        }
+        NearEnough digits = Check.taped("row r has 12");
+        digits.end(11);
+        digits.program();
+        latest(digits, 2, 11);
+        NearEnough letter = Check.taped("row r has 3a");
+        letter.end(11);
+        letter.program();
+        latest(letter, 2, 11);
+        NearEnough word = Check.taped("sums");
+        word.end(3);
+        word.program();
+        latest(word, 2, 3);
+        NearEnough semicolon = Check.taped(SUM);
+        semicolon.end(SUM.length() - 1);
+        semicolon.program();
+        latest(semicolon, 2, SUM.length() - 1);
+    }
+
     /** "The TAPE (empty then) is the PROGRAM (SHEETS, CHANGES and GUARDS are none then; THE PURSE is 0, nothing spent)." */
     private static void theTapeIsEmptyThen() {
         NearEnough x = stocked();
@@ -183,6 +218,9 @@ public final class TextEdgeTest {
         y.end(0);
         Check.tape(y, Check.bytes("row q has 3 from 2 to 4;sum s of q;most m of q;end s off 3 never;"));
         Check.due("another PROGRAM", y.program(), 2);
+        Check.due("the FRONT of no CHANGES", y.front(0), 1);
+        Check.due("saves nothing", y.pair(0, 0, 1), 0);
+        Check.due("the PLAN of no SHEETS", y.plan(0, 400), 0);
         Check.due("no day without a SHEET", y.day(0, 0, 0), NONE);
         Check.due("a first SHEET", y.sheet(false), 0);
         Check.due("its numbers are the least", y.value(0, 0, 0), 6);
@@ -192,6 +230,37 @@ public final class TextEdgeTest {
         Check.due("a first GUARD", y.guard(0, 1, 0), 0);
         Check.due("its FRONT", y.front(0), 2);
         Check.due("its PLAN", y.plan(0, 4), 5);
+    }
+
+    /** "SHEETS are none then": those of the PROGRAM ahead are not among the new ones. */
+    private static void theOldSheetsAreGone() {
+        String text = "row r has 2 from 0 to 9;sum s of r;most m of r;end s off 3 mean;";
+        NearEnough x = Check.told(text);
+        for (int sheet = 0; sheet < 40; sheet++) {
+            x.sheet(sheet % 2 == 0);
+            Check.fill(x, sheet, 0, 9, 9);
+        }
+        x.change(0, Kind.SHORT, 1, 7);
+        x.guard(0, 1, 0);
+        Check.due("all err", x.mean(0, 1, 0), 9);
+        Check.due("all turn back", x.turned(0, 0), 40);
+        Check.due("worst", x.worst(0, 1, 0), -9);
+        Check.tape(x, Check.bytes(text));
+        x.program();
+        x.change(0, Kind.SHORT, 1, 7);
+        for (int sheet = 0; sheet < 2; sheet++) {
+            Check.due("no value on it", x.value(0, sheet, 1), NONE);
+            x.sheet(true);
+            Check.due("measured", x.measured(0, 1), 0);
+            Check.due("passed", x.passed(0, 1), 0);
+            Check.due("mean", x.mean(0, 1, 0), 0);
+            Check.due("let", x.let(1), 1);
+            Check.due("through", x.through(0, 1), 0);
+            Check.due("turned", x.turned(0, 0), 0);
+            Check.due("plan", x.plan(0, 0), 7 * (sheet + 1));
+        }
+        x.guard(0, 1, 0);
+        Check.due("turned by a new GUARD", x.turned(0, 0), 0);
     }
 
     /** A PROGRAM with all that a new one takes away, and a FAULT on the TAPE. */
@@ -343,6 +412,72 @@ public final class TextEdgeTest {
         }
         Check.good(0, "row skip has 1 from 0 to 0;row bits has 1 from 0 to 0;");
         Check.good(0, "row ro has 1 from 0 to 0;row w has 1 from 0 to 0;");
+    }
+
+    /** NAMES are like ones only if all their letters are. */
+    private static void namesThatDiffer() {
+        for (char one = 'a'; one <= 'z'; one++) {
+            for (char other = 'a'; other <= 'z'; other++) {
+                String name = "" + one + other;
+                unlike(name, "" + other);
+                unlike(name, one + "a" + other);
+                if (one != other) {
+                    unlike(name, "" + other + one);
+                    unlike("" + one, "" + other);
+                    unlike("x" + one + "yyyyyy", "x" + other + "yyyyyy");
+                    unlike("xxxxxxx" + one, "xxxxxxx" + other);
+                    unlike(one + "xxxxxxx", other + "xxxxxxx");
+                }
+            }
+        }
+    }
+
+    private static void unlike(String name, String other) {
+        if (Arrays.asList(OWN_WORDS).contains(name) || Arrays.asList(OWN_WORDS).contains(other)) {
+            return;
+        }
+        Check.fault(5, "row " + name + " has 1 from 0 to 0;sum oooo of |" + other + ";");
+        Check.good(1, "row " + name + " has 1 from 0 to 0;sum " + other + " of " + name + ";");
+    }
+
+    /** "2 one that can't stand there": each TOKEN of each line with one of another kind in its place. */
+    private static void tokensThatCanNotStandThere() {
+        String[] lines = {"row q has 1 from 2 to 3 ;", "sum t of r ;", "most t of r ;", "add t s s ;", "less t s s ;",
+            "times t s s ;", "scale t s by 1 over 1 ;", "at t r place s ;", "pick t s s if s under s ;",
+            "end s off 1 never ;"};
+        String[] others = {"row", "of", "one", "s", "zz", "5", ";", "-"};
+        for (String line : lines) {
+            String[] tokens = line.split(" ");
+            for (int i = 0; i < tokens.length; i++) {
+                String ahead = SUM + String.join(" ", Arrays.copyOf(tokens, i)) + " |";
+                String behind = " " + String.join(" ", Arrays.copyOfRange(tokens, i + 1, tokens.length));
+                Check.fault(1, ahead + "?" + behind);
+                for (String other : others) {
+                    if (!canStandFor(tokens, i, other)) {
+                        Check.fault(2, ahead + other + behind);
+                    }
+                }
+            }
+        }
+        Check.fault(2, "row r has 1 from -|- 1 to 1;");
+        Check.fault(2, "row r has 1 from 0 to -|;");
+        Check.fault(2, "row r has 1 from 0 to - |to;");
+        Check.fault(2, SUM + "scale t s by -|x over 1;");
+    }
+
+    /** Whether a TOKEN is of the kind that stands at a place of a line, though it may be wrong there in another way. */
+    private static boolean canStandFor(String[] tokens, int i, String other) {
+        String due = tokens[i];
+        boolean otherIsName = other.equals("s") || other.equals("zz");
+        if (Character.isDigit(due.charAt(0))) {
+            boolean mayHaveSign = tokens[i - 1].equals("from") || tokens[i - 1].equals("to") || tokens[i - 1].equals("by");
+            return other.equals("5") || other.equals("-") && mayHaveSign;
+        }
+        if (i == 0) {
+            return other.equals("row");
+        }
+        boolean dueIsName = due.length() == 1 && Character.isLetter(due.charAt(0));
+        return dueIsName ? otherIsName : due.equals(other) || due.equals("never") && other.equals("one");
     }
 
     /** "At most 2 ROWS." "A 3rd ROW: at the line's first word." */
