@@ -24,6 +24,8 @@ public final class ChoiceEdgeTest {
         guardsThatTurnBack();
         guardsAtTheirBounds();
         throughMoreThanOff();
+        guardsAreNoMatterElsewhere();
+        endsAreNumberedAsTold();
         worstOfLikeOnes();
         worstOfTwelvePlaces();
         worstOfNone();
@@ -357,6 +359,78 @@ public final class ChoiceEdgeTest {
         barred.sheet(false);
         Check.due("through by a BARRED one", barred.through(0, 1), NONE);
         Check.due("turned by a BARRED one", barred.turned(0, 1), NONE);
+    }
+
+    /** A GUARD that turns back is asked by THROUGH and TURNED alone: an ERROR is what the CHOICE makes of it. */
+    private static void guardsAreNoMatterElsewhere() {
+        NearEnough x = Check.told(TWO + "end s off 3 mean;");
+        int choice = changed(x, 0, Kind.SHORT, 1, 6);
+        x.sheet(false);
+        Check.fill(x, 0, 0, 1, 8);
+        x.guard(0, 1, 0);
+        Check.due("it turns back", x.turned(0, choice), 1);
+        Check.due("value", x.value(0, 0, choice), 1);
+        Check.due("measured", x.measured(0, choice), 8);
+        Check.due("mean", x.mean(0, choice, 0), 8);
+        Check.due("let", x.let(choice), 0);
+        Check.due("best", x.best(), 0);
+        Check.due("worst", x.worst(0, choice, 0), -9);
+        Check.due("led", x.led(0, 0, choice, 0), -8);
+        Check.due("plan for 7", x.plan(0, 7), 0);
+        Check.due("plan for 8", x.plan(0, 8), 6);
+        x.purse(10);
+        Check.due("day", x.day(0, 0, choice), 2);
+        Check.due("day that turns back", x.day(0, 0, choice), -2);
+    }
+
+    /** "4 ENDS, numbered as told": here against the order of their STEPS. */
+    private static void endsAreNumberedAsTold() {
+        // STEPS: 0 s, 1 m, 2 t; END 0 is of t, END 1 of s; s is 6 and 11, m 5 and 9, t 11 and 20.
+        NearEnough x = Check.told(TWO + "add t s m;end t off 12 one;end s off 8 mean;");
+        changed(x, 0, Kind.SHORT, 1, 6);
+        changed(x, 2, Kind.BITS, 4, 3);
+        x.sheet(false);
+        x.sheet(true);
+        Check.fill(x, 0, 0, 1, 5);
+        Check.fill(x, 1, 0, 2, 9);
+        asked(x, 0, 1, 9, 5, 1, 7, 1, 0);
+        asked(x, 1, 1, 9, 5, 1, 7, 1, 1);
+        asked(x, 0, 2, 15, 11, 0, 15, 2, 0);
+        asked(x, 1, 2, 0, 0, 0, 0, 1, 0);
+        asked(x, 0, 3, 24, 11, 1, 31, 2, 1);
+        asked(x, 1, 3, 9, 5, 1, 7, 1, 1);
+        worst(x, 0, 2, -11, 3);
+        worst(x, 1, 2, 0, 0);
+        worst(x, 0, 3, -18, 2);
+        worst(x, 1, 3, -9, 2);
+        Check.due("led of t", x.led(0, 0, 3, 1), -6);
+        Check.due("led of s", x.led(1, 0, 3, 1), 0);
+        Check.due("front of t", x.front(0), 3);
+        pair(x, 0, 2, 24, 9);
+        Check.due("front of s", x.front(1), 2);
+        pair(x, 1, 1, 9, 9);
+        plan(x, 4, 3, 0, 2);
+        plan(x, 5, 6, 1, 0);
+        Check.due("plan of s for 4", x.plan(1, 4), 6);
+        Check.due("plan of s for 5", x.plan(1, 5), 12);
+        Check.due("planned of s", x.planned(1, 5, 0), 3);
+        x.purse(11);
+        Check.due("day of s", x.day(1, 0, 2), 11);
+        Check.due("day of t", x.day(0, 0, 2), 0);
+        x.guard(0, 1, 6);
+        Check.due("t and m differ by more than 6 once", x.turned(0, 0), 1);
+        Check.due("s has no GUARD", x.turned(1, 0), 0);
+    }
+
+    /** OFF, MEASURED, PASSED, both parts of MEAN, and THROUGH of an END by a CHOICE. */
+    private static void asked(NearEnough x, int end, int choice, long... due) {
+        String of = " of END " + end + " by " + choice;
+        Check.due("off" + of, x.off(end, choice), due[0]);
+        Check.due("measured" + of, x.measured(end, choice), due[1]);
+        Check.due("passed" + of, x.passed(end, choice), due[2]);
+        Check.due("upper part" + of, x.mean(end, choice, 0), due[3]);
+        Check.due("lower part" + of, x.mean(end, choice, 1), due[4]);
+        Check.due("through" + of, x.through(end, choice), due[5]);
     }
 
     private static void worst(NearEnough x, int end, int choice, long error, long bits) {

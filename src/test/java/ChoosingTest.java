@@ -1,10 +1,6 @@
 /** Promises 20 to 32: BEST, FRONT, GUARDS, WORST, LED, THE PURSE, PLAN, about. */
 public final class ChoosingTest {
     private static final int NONE = NearEnough.NONE;
-    private static final int BITS = 1;
-    private static final int LEFT = 4;
-    private static final int SHORT = 5;
-    private static final int OLD = 6;
     private static final String SMALL = "row r has 2 from 0 to 9;sum s of r;most m of r;";
     private static final String PLACED = "row r has 3 from 0 to 9;sum s of r;at a r place s;";
 
@@ -33,9 +29,9 @@ public final class ChoosingTest {
     private static void bestByAllowance() {
         NearEnough x = Check.told(SMALL + "end s off 7 never;end m off 1 mean;");
         Check.due("no CHANGES", x.best(), 0);
-        x.change(0, BITS, 3, 5);
-        x.change(0, BITS, 4, 9);
-        x.change(1, BITS, 2, 4);
+        x.change(0, Kind.BITS, 3, 5);
+        x.change(0, Kind.BITS, 4, 9);
+        x.change(1, Kind.BITS, 2, 4);
         Check.due("the second is off by 15", x.best(), 5);
         x.sheet(false);
         x.put(0, 0, 0, 7);
@@ -43,41 +39,41 @@ public final class ChoosingTest {
         x.sheet(true);
         x.sheet(true);
         Check.due("3 is no more than 3 together", x.best(), 5);
-        x.change(0, BITS, 1, 6);
+        x.change(0, Kind.BITS, 1, 6);
         Check.due("another one saves more", x.best(), 12);
     }
 
     private static void bestOfLikeOnes() {
         NearEnough x = Check.told(SMALL + "add t s m;end t off 15 never;");
-        x.change(0, BITS, 3, 3);
-        x.change(1, BITS, 3, 2);
+        x.change(0, Kind.BITS, 3, 3);
+        x.change(1, Kind.BITS, 3, 2);
         Check.due("saves most", x.best(), 3);
-        x.change(0, BITS, 4, 5);
+        x.change(0, Kind.BITS, 4, 5);
         Check.due("the fewest CHANGES of like ones", x.best(), 4);
         NearEnough y = Check.told(SMALL);
-        y.change(0, BITS, 1, 3);
-        y.change(1, BITS, 1, 2);
-        y.change(1, LEFT, 0, 2);
-        y.change(0, LEFT, 0, 3);
+        y.change(0, Kind.BITS, 1, 3);
+        y.change(1, Kind.BITS, 1, 2);
+        y.change(1, Kind.LEFT, 0, 2);
+        y.change(0, Kind.LEFT, 0, 3);
         Check.due("the least number of like ones", y.best(), 3);
         NearEnough z = Check.told("row r has 2 from 0 to 9;sum s of r;most m of r;end m off 0 never;end s off 3 never;");
-        z.change(1, BITS, 1, 9);
-        z.change(0, BITS, 1, 0);
-        z.change(0, BITS, 2, 0);
+        z.change(1, Kind.BITS, 1, 9);
+        z.change(0, Kind.BITS, 1, 0);
+        z.change(0, Kind.BITS, 2, 0);
         Check.due("none, where none saves", z.best(), 0);
-        z.change(0, BITS, 2, 1);
-        z.change(0, BITS, 2, 1);
+        z.change(0, Kind.BITS, 2, 1);
+        z.change(0, Kind.BITS, 2, 1);
         Check.due("the least of two that save 1", z.best(), 8);
         NearEnough few = Check.told("row r has 2 from 0 to 9;sum s of r;most m of r;sum t of r;");
-        few.change(0, LEFT, 0, 1);
-        few.change(1, LEFT, 0, 2);
-        few.change(2, LEFT, 0, 3);
-        few.change(2, OLD, 0, 6);
-        few.change(0, BITS, 1, 0);
+        few.change(0, Kind.LEFT, 0, 1);
+        few.change(1, Kind.LEFT, 0, 2);
+        few.change(2, Kind.LEFT, 0, 3);
+        few.change(2, Kind.OLD, 0, 6);
+        few.change(0, Kind.BITS, 1, 0);
         Check.due("1 + 2 + 6", few.best(), 0b1011);
         NearEnough fewer = Check.told("row r has 2 from 0 to 9;sum s of r;most m of r;");
-        fewer.change(0, LEFT, 0, 4);
-        fewer.change(1, LEFT, 0, 0);
+        fewer.change(0, Kind.LEFT, 0, 4);
+        fewer.change(1, Kind.LEFT, 0, 0);
         Check.due("one that saves nothing is left out", fewer.best(), 1);
     }
 
@@ -90,10 +86,10 @@ public final class ChoosingTest {
         NearEnough x = Check.told(SMALL + "add t s m;end t off 0 never;end m off 0 one;");
         Check.due("the pair of no CHANGES", x.front(0), 1);
         pair(x, 0, 0, 0, 0);
-        x.change(0, BITS, 2, 4);
-        x.change(0, BITS, 3, 4);
-        x.change(0, BITS, 4, 9);
-        x.change(1, BITS, 1, 2);
+        x.change(0, Kind.BITS, 2, 4);
+        x.change(0, Kind.BITS, 3, 4);
+        x.change(0, Kind.BITS, 4, 9);
+        x.change(1, Kind.BITS, 1, 2);
         Check.due("front", x.front(0), 6);
         pair(x, 0, 0, 0, 0);
         pair(x, 0, 1, 1, 2);
@@ -110,8 +106,8 @@ public final class ChoosingTest {
 
     private static void frontsOfBarredOnes() {
         NearEnough x = Check.told(PLACED + "end a off 0 never;end s off 9 one;");
-        x.change(0, BITS, 1, 7);
-        x.change(1, LEFT, 0, 2);
+        x.change(0, Kind.BITS, 1, 7);
+        x.change(1, Kind.LEFT, 0, 2);
         Check.due("front without the BARRED one", x.front(0), 2);
         pair(x, 0, 1, 5, 9);
         Check.due("front of s", x.front(1), 2);
@@ -124,7 +120,7 @@ public final class ChoosingTest {
         Check.due("no pair", x.pair(1, -1, 0), NONE);
         Check.due("no what", x.pair(1, 0, 2), NONE);
         Check.due("no what", x.pair(1, 0, -1), NONE);
-        x.change(1, OLD, 0, 3);
+        x.change(1, Kind.OLD, 0, 3);
         Check.due("a new CHANGE counts", x.front(1), 2);
         pair(x, 1, 0, 0, 3);
     }
@@ -148,8 +144,8 @@ public final class ChoosingTest {
 
     private static void turning() {
         NearEnough x = Check.told(SMALL + "end s off 2 one;end m off 0 one;");
-        x.change(0, SHORT, 1, 1);
-        x.change(1, SHORT, 1, 1);
+        x.change(0, Kind.SHORT, 1, 1);
+        x.change(1, Kind.SHORT, 1, 1);
         int[] second = {2, 3, 9, 0};
         for (int sheet = 0; sheet < second.length; sheet++) {
             x.sheet(sheet == 1);
@@ -178,9 +174,9 @@ public final class ChoosingTest {
 
     private static void worsts() {
         NearEnough x = Check.told("row r has 3 from -2 to 5;sum s of r;most m of r;end s off 0 never;end m off 0 never;");
-        x.change(0, SHORT, 2, 0);
-        x.change(1, SHORT, 1, 0);
-        x.change(0, OLD, 0, 0);
+        x.change(0, Kind.SHORT, 2, 0);
+        x.change(1, Kind.SHORT, 1, 0);
+        x.change(0, Kind.OLD, 0, 0);
         Check.due("the third is 5", x.worst(0, 1, 0), -5);
         Check.due("its bits", x.worst(0, 1, 1), 4);
         Check.due("the first is -2, another 5", x.worst(1, 2, 0), -7);
@@ -196,15 +192,15 @@ public final class ChoosingTest {
         Check.due("no what", x.worst(0, 1, 2), Check.NO_ERROR);
         Check.due("no what", x.worst(0, 1, -1), Check.NO_ERROR);
         NearEnough barred = Check.told(PLACED + "end a off 0 never;");
-        barred.change(0, BITS, 1, 0);
+        barred.change(0, Kind.BITS, 1, 0);
         Check.due("BARRED", barred.worst(0, 1, 0), Check.NO_ERROR);
     }
 
     private static void worstsOfTwoRows() {
         NearEnough x = Check.told("row r has 2 from 0 to 3;row q has 2 from 1 to 8;sum s of r;sum t of q;add u s t;"
                 + "end u off 0 never;");
-        x.change(0, SHORT, 1, 0);
-        x.change(1, SHORT, 1, 0);
+        x.change(0, Kind.SHORT, 1, 0);
+        x.change(1, Kind.SHORT, 1, 0);
         Check.due("ROW 0 at place 1", x.worst(0, 1, 0), -3);
         Check.due("its bit", x.worst(0, 1, 1), 2);
         Check.due("ROW 1 at place 1", x.worst(0, 2, 0), -8);
@@ -212,7 +208,7 @@ public final class ChoosingTest {
         Check.due("both", x.worst(0, 3, 0), -11);
         Check.due("both bits", x.worst(0, 3, 1), 10);
         NearEnough like = Check.told("row r has 2 from 3 to 3;sum s of r;end s off 0 never;");
-        like.change(0, BITS, 2, 0);
+        like.change(0, Kind.BITS, 2, 0);
         Check.due("where the least is the greatest", like.worst(0, 1, 0), -2);
         Check.due("the least bits", like.worst(0, 1, 1), 0);
     }
@@ -222,10 +218,10 @@ public final class ChoosingTest {
         x.sheet(false);
         x.put(0, 0, 0, 4);
         x.put(0, 0, 1, 9);
-        x.change(1, SHORT, 1, 0);
-        x.change(2, BITS, 3, 0);
-        x.change(0, SHORT, 1, 0);
-        x.change(2, LEFT, 0, 0);
+        x.change(1, Kind.SHORT, 1, 0);
+        x.change(2, Kind.BITS, 3, 0);
+        x.change(0, Kind.SHORT, 1, 0);
+        x.change(2, Kind.LEFT, 0, 0);
         Check.due("22 is 17 by the first", x.led(0, 0, 7, 0), -5);
         Check.due("17 is 16 by the second", x.led(0, 0, 7, 1), -1);
         Check.due("4 + 4 is 8 by the third", x.led(0, 0, 7, 2), -8);
@@ -241,9 +237,9 @@ public final class ChoosingTest {
         NearEnough y = Check.told(PLACED + "end a off 0 never;end s off 0 never;");
         y.sheet(false);
         y.put(0, 0, 0, 5);
-        y.change(1, BITS, 1, 0);
-        y.change(0, BITS, 1, 0);
-        y.change(1, LEFT, 0, 0);
+        y.change(1, Kind.BITS, 1, 0);
+        y.change(0, Kind.BITS, 1, 0);
+        y.change(1, Kind.LEFT, 0, 0);
         Check.due("ahead of what bars", y.led(0, 0, 3, 0), 0);
         Check.due("BARRED with it", y.led(0, 0, 3, 1), Check.NO_ERROR);
         Check.due("BARRED without it", y.led(1, 0, 6, 2), Check.NO_ERROR);
@@ -265,9 +261,9 @@ public final class ChoosingTest {
 
     private static void days() {
         NearEnough x = Check.told(PLACED + "end s off 0 never;");
-        x.change(0, SHORT, 2, 0);
-        x.change(1, LEFT, 0, 0);
-        x.change(0, BITS, 1, 0);
+        x.change(0, Kind.SHORT, 2, 0);
+        x.change(1, Kind.LEFT, 0, 0);
+        x.change(0, Kind.BITS, 1, 0);
         x.sheet(true);
         x.sheet(false);
         x.put(0, 0, 2, 4);
@@ -292,8 +288,8 @@ public final class ChoosingTest {
     private static void plans() {
         NearEnough x = Check.told(SMALL + "end s off 0 never;");
         Check.due("no SHEETS", x.plan(0, 400), 0);
-        x.change(0, SHORT, 1, 10);
-        x.change(0, BITS, 2, 4);
+        x.change(0, Kind.SHORT, 1, 10);
+        x.change(0, Kind.BITS, 2, 4);
         int[] second = {6, 2, 9};
         for (int sheet = 0; sheet < second.length; sheet++) {
             x.sheet(sheet == 1);
@@ -325,9 +321,9 @@ public final class ChoosingTest {
         x.sheet(false);
         x.put(0, 0, 1, 3);
         x.put(1, 0, 1, 3);
-        x.change(0, SHORT, 1, 5);
-        x.change(0, BITS, 1, 5);
-        x.change(1, LEFT, 0, 0);
+        x.change(0, Kind.SHORT, 1, 5);
+        x.change(0, Kind.BITS, 1, 5);
+        x.change(1, Kind.LEFT, 0, 0);
         Check.due("both save 5, the least errs more", x.plan(0, 400), 10);
         Check.due("the least CHOICE", x.planned(0, 400, 0), 1);
         Check.due("the least CHOICE", x.planned(0, 400, 1), 1);
@@ -344,11 +340,11 @@ public final class ChoosingTest {
 
     private static void plansAnew() {
         NearEnough x = Check.told(PLACED + "end s off 0 never;end a off 0 never;");
-        x.change(0, BITS, 2, 7);
+        x.change(0, Kind.BITS, 2, 7);
         x.sheet(false);
         x.put(0, 0, 0, 3);
         Check.due("BARRED", x.plan(0, 400), 0);
-        x.change(1, LEFT, 0, 1);
+        x.change(1, Kind.LEFT, 0, 1);
         Check.due("a new CHANGE counts", x.plan(0, 400), 8);
         Check.due("its CHOICE", x.planned(0, 400, 0), 3);
         Check.due("of the other END", x.plan(1, 0), 0);
@@ -366,7 +362,7 @@ public final class ChoosingTest {
             x.sheet(false);
         }
         for (int i = 0; i < 5; i++) {
-            x.change(0, BITS, 1, 1);
+            x.change(0, Kind.BITS, 1, 1);
         }
         x.guard(0, 1, 1);
         x.purse(77);

@@ -1,13 +1,6 @@
 /** Promises 7 to 19: SHEETS, CHANGES, what comes, what is SHOWN, what is measured, what is LET. */
 public final class WorkingTest {
     private static final int NONE = NearEnough.NONE;
-    private static final int SKIP = 0;
-    private static final int BITS = 1;
-    private static final int USUAL = 2;
-    private static final int COARSE = 3;
-    private static final int LEFT = 4;
-    private static final int SHORT = 5;
-    private static final int OLD = 6;
     // STEPS: 0 s, 1 m, 2 i, 3 a, 4 h, 5 t, 6 d, 7 p.
     private static final String TEXT = "row r has 5 from -4 to 9;row q has 2 from 0 to 3;sum s of r;most m of r;"
             + "sum i of q;at a r place i;scale h s by -1 over 2;times t m i;less d s m;pick p s h if a under m;"
@@ -101,13 +94,13 @@ public final class WorkingTest {
     }
 
     private static void changes() {
-        changeRange(0, SKIP, 2, 6);
-        changeRange(3, BITS, 1, 10);
-        changeRange(7, USUAL, 0, 1);
-        changeRange(3, COARSE, 2, 99);
-        changeRange(6, LEFT, 0, 0);
-        changeRange(1, SHORT, 1, 5);
-        changeRange(3, OLD, 0, 0);
+        changeRange(0, Kind.SKIP, 2, 6);
+        changeRange(3, Kind.BITS, 1, 10);
+        changeRange(7, Kind.USUAL, 0, 1);
+        changeRange(3, Kind.COARSE, 2, 99);
+        changeRange(6, Kind.LEFT, 0, 0);
+        changeRange(1, Kind.SHORT, 1, 5);
+        changeRange(3, Kind.OLD, 0, 0);
         NearEnough x = Check.told(TEXT);
         int[] leastN = {2, 1, 0, 2, 0, 1, 0};
         // By kind: the STEPS (as bits) of which it can be.
@@ -121,14 +114,14 @@ public final class WorkingTest {
         }
         Check.due("no kind", x.change(0, 7, 0, 0), NONE);
         Check.due("no kind", x.change(0, -1, 0, 0), NONE);
-        Check.due("no STEP", x.change(8, LEFT, 0, 0), NONE);
-        Check.due("no STEP", x.change(-1, LEFT, 0, 0), NONE);
-        Check.due("saves too much", x.change(0, LEFT, 0, 1000), NONE);
-        Check.due("saves below 0", x.change(0, LEFT, 0, -1), NONE);
+        Check.due("no STEP", x.change(8, Kind.LEFT, 0, 0), NONE);
+        Check.due("no STEP", x.change(-1, Kind.LEFT, 0, 0), NONE);
+        Check.due("saves too much", x.change(0, Kind.LEFT, 0, 1000), NONE);
+        Check.due("saves below 0", x.change(0, Kind.LEFT, 0, -1), NONE);
         for (int change = 0; change < 12; change++) {
-            Check.due("change", x.change(change % 3, LEFT, 0, 0), change);
+            Check.due("change", x.change(change % 3, Kind.LEFT, 0, 0), change);
         }
-        Check.due("a 13th", x.change(0, LEFT, 0, 0), NONE);
+        Check.due("a 13th", x.change(0, Kind.LEFT, 0, 0), NONE);
         Check.due("still 12", x.about(4), 12);
     }
 
@@ -143,47 +136,47 @@ public final class WorkingTest {
         for (int step = 0; step < 8; step++) {
             Check.due("plain value of STEP " + step, x.value(step, 0, 0), plain[step]);
         }
-        value(0, SKIP, 2, 15);
-        value(0, SKIP, 3, 22);
-        value(0, SKIP, 4, 12);
-        value(0, SKIP, 6, 45);
-        value(0, SHORT, 1, 9);
-        value(0, SHORT, 3, 10);
-        value(0, SHORT, 5, 6);
-        value(2, SHORT, 5, 5);
-        value(1, SHORT, 1, 9);
-        value(0, COARSE, 5, -5);
-        value(0, COARSE, 99, -198);
-        value(1, COARSE, 4, 8);
-        value(3, COARSE, 4, 8);
-        value(4, BITS, 3, -8);
-        value(0, BITS, 1, 6);
-        value(3, BITS, 1, 8);
-        value(7, BITS, 10, -1024);
-        value(0, LEFT, 0, 12);
-        value(1, LEFT, 0, 2);
-        value(3, LEFT, 0, 2);
-        value(4, LEFT, 0, -6);
-        value(6, LEFT, 0, 10);
-        value(7, USUAL, 0, 6);
-        value(7, USUAL, 1, -3);
-        NearEnough y = changed(0, SKIP, 2);
+        value(0, Kind.SKIP, 2, 15);
+        value(0, Kind.SKIP, 3, 22);
+        value(0, Kind.SKIP, 4, 12);
+        value(0, Kind.SKIP, 6, 45);
+        value(0, Kind.SHORT, 1, 9);
+        value(0, Kind.SHORT, 3, 10);
+        value(0, Kind.SHORT, 5, 6);
+        value(2, Kind.SHORT, 5, 5);
+        value(1, Kind.SHORT, 1, 9);
+        value(0, Kind.COARSE, 5, -5);
+        value(0, Kind.COARSE, 99, -198);
+        value(1, Kind.COARSE, 4, 8);
+        value(3, Kind.COARSE, 4, 8);
+        value(4, Kind.BITS, 3, -8);
+        value(0, Kind.BITS, 1, 6);
+        value(3, Kind.BITS, 1, 8);
+        value(7, Kind.BITS, 10, -1024);
+        value(0, Kind.LEFT, 0, 12);
+        value(1, Kind.LEFT, 0, 2);
+        value(3, Kind.LEFT, 0, 2);
+        value(4, Kind.LEFT, 0, -6);
+        value(6, Kind.LEFT, 0, 10);
+        value(7, Kind.USUAL, 0, 6);
+        value(7, Kind.USUAL, 1, -3);
+        NearEnough y = changed(0, Kind.SKIP, 2);
         Check.due("what comes behind, h", y.value(4, 0, 1), -7);
         Check.due("what comes behind, d", y.value(6, 0, 1), 6);
         Check.due("what comes behind, p", y.value(7, 0, 1), -7);
         NearEnough cut = Check.told("row r has 3 from -9 to 9;sum s of r;scale z s by 7 over 3;");
         cut.sheet(false);
         Check.fill(cut, 0, 0, -5, 9, -2);
-        cut.change(0, SKIP, 2, 0);
+        cut.change(0, Kind.SKIP, 2, 0);
         Check.due("SKIP is cut towards 0", cut.value(0, 0, 1), -10);
         Check.due("scale is cut towards 0", cut.value(1, 0, 1), -23);
         Check.due("scale without", cut.value(1, 0, 0), 4);
     }
 
     private static void oldValues() {
-        NearEnough x = changed(0, OLD, 0);
-        x.change(3, OLD, 0, 0);
-        x.change(1, OLD, 0, 0);
+        NearEnough x = changed(0, Kind.OLD, 0);
+        x.change(3, Kind.OLD, 0, 0);
+        x.change(1, Kind.OLD, 0, 0);
         x.sheet(true);
         Check.due("of the first SHEET its own", x.value(0, 0, 1), 6);
         Check.due("OLD sum", x.value(0, 1, 1), 6);
@@ -210,8 +203,8 @@ public final class WorkingTest {
     }
 
     private static void wrongValues() {
-        NearEnough x = changed(0, BITS, 1);
-        x.change(0, BITS, 2, 0);
+        NearEnough x = changed(0, Kind.BITS, 1);
+        x.change(0, Kind.BITS, 2, 0);
         Check.due("no STEP", x.value(8, 0, 0), NONE);
         Check.due("no STEP", x.value(-1, 0, 0), NONE);
         Check.due("no SHEET", x.value(0, 1, 0), NONE);
@@ -232,27 +225,27 @@ public final class WorkingTest {
     }
 
     private static void errorsOfRows() {
-        error(0, SKIP, 2, -27, 27);
-        error(0, SKIP, 3, -40, 40);
-        error(0, SKIP, 6, -53, 53);
-        error(0, SHORT, 2, -27, 12);
-        error(0, SHORT, 4, -9, 4);
-        error(0, SHORT, 5, 0, 0);
-        error(1, SHORT, 1, -13, 0);
-        error(1, SHORT, 5, 0, 0);
-        error(2, SHORT, 2, 0, 0);
-        error(0, OLD, 0, -65, 65);
-        error(1, OLD, 0, -13, 13);
-        error(3, OLD, 0, -13, 13);
-        error(0, COARSE, 5, -20, 0);
-        error(1, COARSE, 4, -3, 0);
-        error(3, COARSE, 4, -3, 0);
-        error(3, BITS, 3, -7, 0);
-        error(0, LEFT, 0, -33, 32);
-        error(3, LEFT, 0, -7, 6);
+        error(0, Kind.SKIP, 2, -27, 27);
+        error(0, Kind.SKIP, 3, -40, 40);
+        error(0, Kind.SKIP, 6, -53, 53);
+        error(0, Kind.SHORT, 2, -27, 12);
+        error(0, Kind.SHORT, 4, -9, 4);
+        error(0, Kind.SHORT, 5, 0, 0);
+        error(1, Kind.SHORT, 1, -13, 0);
+        error(1, Kind.SHORT, 5, 0, 0);
+        error(2, Kind.SHORT, 2, 0, 0);
+        error(0, Kind.OLD, 0, -65, 65);
+        error(1, Kind.OLD, 0, -13, 13);
+        error(3, Kind.OLD, 0, -13, 13);
+        error(0, Kind.COARSE, 5, -20, 0);
+        error(1, Kind.COARSE, 4, -3, 0);
+        error(3, Kind.COARSE, 4, -3, 0);
+        error(3, Kind.BITS, 3, -7, 0);
+        error(0, Kind.LEFT, 0, -33, 32);
+        error(3, Kind.LEFT, 0, -7, 6);
         NearEnough one = Check.told("row r has 1 from 3 to 3;sum s of r;scale h s by 2 over 1;");
-        one.change(0, SKIP, 2, 0);
-        one.change(0, LEFT, 0, 0);
+        one.change(0, Kind.SKIP, 2, 0);
+        one.change(0, Kind.LEFT, 0, 0);
         Check.errorOf(one, 0, 1, -1, 1);
         Check.errorOf(one, 0, 2, 0, 0);
         Check.errorOf(one, 1, 2, 0, 0);
@@ -261,11 +254,11 @@ public final class WorkingTest {
 
     private static void errorsOfSteps() {
         NearEnough x = filled();
-        x.change(0, COARSE, 5, 0);
-        x.change(1, COARSE, 4, 0);
-        x.change(0, SKIP, 2, 0);
-        x.change(6, BITS, 2, 0);
-        x.change(6, LEFT, 0, 0);
+        x.change(0, Kind.COARSE, 5, 0);
+        x.change(1, Kind.COARSE, 4, 0);
+        x.change(0, Kind.SKIP, 2, 0);
+        x.change(6, Kind.BITS, 2, 0);
+        x.change(6, Kind.LEFT, 0, 0);
         Check.errorOf(x, 6, 1, -20, 0);
         Check.errorOf(x, 6, 2, 0, 3);
         Check.errorOf(x, 6, 3, -20, 3);
@@ -277,8 +270,8 @@ public final class WorkingTest {
         Check.errorOf(x, 5, 2, -18, 0);
         NearEnough y = Check.told("row r has 2 from -3 to 4;most m of r;sum s of r;times t m s;add u m s;"
                 + "scale z m by 0 over 5;times v m m;");
-        y.change(0, BITS, 1, 0);
-        y.change(1, BITS, 2, 0);
+        y.change(0, Kind.BITS, 1, 0);
+        y.change(1, Kind.BITS, 2, 0);
         Check.errorOf(y, 2, 3, -12 - 8 + 0, 9 + 6 + 3);
         Check.errorOf(y, 3, 3, -4, 0);
         Check.errorOf(y, 4, 1, -1, 1);
@@ -287,41 +280,41 @@ public final class WorkingTest {
     }
 
     private static void errorsOfPicks() {
-        error(7, USUAL, 0, -30, 67);
-        error(7, USUAL, 1, -67, 30);
-        error(7, BITS, 2, -3, 0);
-        error(7, LEFT, 0, -34, 33);
-        NearEnough x = changed(1, COARSE, 4);
+        error(7, Kind.USUAL, 0, -30, 67);
+        error(7, Kind.USUAL, 1, -67, 30);
+        error(7, Kind.BITS, 2, -3, 0);
+        error(7, Kind.LEFT, 0, -34, 33);
+        NearEnough x = changed(1, Kind.COARSE, 4);
         Check.errorOf(x, 7, 1, -67, 67);
-        x.change(4, BITS, 3, 0);
+        x.change(4, Kind.BITS, 3, 0);
         Check.errorOf(x, 7, 2, -7, 0);
         Check.errorOf(x, 7, 3, -74, 67);
-        x.change(7, USUAL, 1, 0);
+        x.change(7, Kind.USUAL, 1, 0);
         Check.errorOf(x, 7, 6, -74, 30);
         Check.errorOf(x, 7, 5, -67, 30);
-        x.change(0, BITS, 1, 0);
+        x.change(0, Kind.BITS, 1, 0);
         Check.errorOf(x, 4, 8, -1, 2);
         Check.errorOf(x, 7, 8, -1, 2);
     }
 
     private static void barring() {
-        NearEnough x = changed(2, BITS, 1);
+        NearEnough x = changed(2, Kind.BITS, 1);
         Check.due("BARRED by the at", x.barred(1), 3);
         Check.due("not without", x.barred(0), NONE);
         Check.due("no CHOICE", x.barred(2), -2);
         Check.due("no CHOICE", x.barred(-1), -2);
         Check.due("value of a BARRED one", x.value(0, 0, 1), NONE);
         Check.due("e of a BARRED one", x.error(0, 1, false), Check.NO_ERROR);
-        x.change(3, LEFT, 0, 0);
-        x.change(3, OLD, 0, 0);
+        x.change(3, Kind.LEFT, 0, 0);
+        x.change(3, Kind.OLD, 0, 0);
         Check.due("not BARRED where it is LEFT", x.barred(3), NONE);
         Check.due("but where it is OLD", x.barred(5), 3);
-        x.change(2, SHORT, 5, 0);
+        x.change(2, Kind.SHORT, 5, 0);
         Check.due("nothing errs by SHORT here", x.barred(8), NONE);
         String wide = "row r has 1 from -999 to 999;most m of r;times b m m;times c b m;";
         NearEnough y = Check.told(wide + "end b off 0 never;");
-        y.change(0, OLD, 0, 0);
-        y.change(1, LEFT, 0, 0);
+        y.change(0, Kind.OLD, 0, 0);
+        y.change(1, Kind.LEFT, 0, 0);
         Check.due("b is near enough", y.error(1, 2, true), 998001);
         Check.due("c is beyond", y.barred(1), 2);
         Check.due("c is not", y.barred(2), NONE);
@@ -336,9 +329,9 @@ public final class WorkingTest {
         // STEPS: 0 a, 1 b, 2 c, 3 d of 0 .. 1000000000, 4 z of 0 .. 0, 5 x, 6 p, 7 q.
         NearEnough x = Check.told("row r has 1 from 0 to 100;sum a of r;times b a a;times c b b;"
                 + "scale d c by 10 over 1;scale z a by 0 over 1;most x of r;pick p d z if a under a;less q p x;");
-        x.change(6, USUAL, 1, 0);
-        x.change(6, USUAL, 0, 0);
-        x.change(5, LEFT, 0, 0);
+        x.change(6, Kind.USUAL, 1, 0);
+        x.change(6, Kind.USUAL, 0, 0);
+        x.change(5, Kind.LEFT, 0, 0);
         Check.errorOf(x, 7, 1, -1000000000, 0);
         Check.errorOf(x, 7, 2, 0, 1000000000);
         Check.due("just not beyond", x.barred(1), NONE);
@@ -346,15 +339,15 @@ public final class WorkingTest {
         Check.due("beyond below", x.barred(5), 7);
         Check.due("beyond above", x.barred(6), 7);
         NearEnough y = Check.told("row r has 2 from -5 to 0;sum s of r;at a r place s;");
-        y.change(0, SHORT, 1, 0);
+        y.change(0, Kind.SHORT, 1, 0);
         Check.errorOf(y, 0, 0, 0, 0);
         Check.due("0 .. 5 errs, too", y.barred(1), 1);
     }
 
     private static void offs() {
-        NearEnough x = changed(0, SHORT, 2);
-        x.change(0, COARSE, 5, 0);
-        x.change(1, COARSE, 3, 0);
+        NearEnough x = changed(0, Kind.SHORT, 2);
+        x.change(0, Kind.COARSE, 5, 0);
+        x.change(1, Kind.COARSE, 3, 0);
         Check.due("off by SHORT", x.off(2, 1), 27);
         Check.due("off by COARSE", x.off(2, 2), 20);
         Check.due("off of another END", x.off(1, 2), 0);
@@ -365,14 +358,14 @@ public final class WorkingTest {
         Check.due("no CHOICE", x.off(0, 3), NONE);
         Check.due("no CHOICE", x.off(0, 8), NONE);
         NearEnough y = Check.told("row r has 3 from -9 to 2;sum s of r;end s off 0 never;");
-        y.change(0, SHORT, 1, 0);
+        y.change(0, Kind.SHORT, 1, 0);
         Check.errorOf(y, 0, 1, -4, 18);
         Check.due("f is the greater", y.off(0, 1), 18);
     }
 
     private static void measuring() {
         NearEnough x = Check.told(SMALL + "end s off 2 one;");
-        x.change(0, SHORT, 1, 3);
+        x.change(0, Kind.SHORT, 1, 3);
         Check.due("measured on no SHEETS", x.measured(0, 1), 0);
         Check.due("passed on no SHEETS", x.passed(0, 1), 0);
         int[] second = {4, 7, 5, 9, 4, 0};
@@ -394,7 +387,7 @@ public final class WorkingTest {
 
     private static void means() {
         NearEnough x = Check.told(SMALL + "end s off 2 one;");
-        x.change(0, SHORT, 1, 3);
+        x.change(0, Kind.SHORT, 1, 3);
         Check.due("mean without SHEETS", x.mean(0, 1, 0), NONE);
         int[] second = {4, 7, 5, 2, 4, 0};
         for (int sheet = 0; sheet < second.length; sheet++) {
@@ -413,12 +406,12 @@ public final class WorkingTest {
 
     private static void savingAndTicking() {
         NearEnough x = filled();
-        x.change(0, SKIP, 2, 100);
-        x.change(0, SHORT, 2, 20);
-        x.change(1, SHORT, 4, 3);
-        x.change(7, LEFT, 0, 0);
-        x.change(2, LEFT, 0, 999);
-        x.change(2, SHORT, 5, 999);
+        x.change(0, Kind.SKIP, 2, 100);
+        x.change(0, Kind.SHORT, 2, 20);
+        x.change(1, Kind.SHORT, 4, 3);
+        x.change(7, Kind.LEFT, 0, 0);
+        x.change(2, Kind.LEFT, 0, 999);
+        x.change(2, Kind.SHORT, 5, 999);
         Check.due("saved by none", x.saved(0), 0);
         Check.due("saved", x.saved(0b0101), 103);
         Check.due("saved by a BARRED one", x.saved(0b10110), 1022);
@@ -438,8 +431,8 @@ public final class WorkingTest {
         letNever();
         letMean();
         letOne();
-        NearEnough x = changed(2, BITS, 1);
-        x.change(2, BITS, 2, 0);
+        NearEnough x = changed(2, Kind.BITS, 1);
+        x.change(2, Kind.BITS, 2, 0);
         Check.due("a BARRED one", x.let(1), 0);
         Check.due("none", x.let(0), 1);
         Check.due("no CHOICE", x.let(3), NONE);
@@ -448,15 +441,15 @@ public final class WorkingTest {
 
     private static void letNever() {
         NearEnough x = Check.told("row r has 2 from 0 to 9;sum s of r;end s off 3 never;");
-        x.change(0, BITS, 2, 0);
-        x.change(0, BITS, 3, 0);
+        x.change(0, Kind.BITS, 2, 0);
+        x.change(0, Kind.BITS, 3, 0);
         Check.due("off is just kept", x.let(1), 1);
         Check.due("off is not kept, whatever is measured", x.let(2), 0);
     }
 
     private static void letMean() {
         NearEnough x = Check.told(SMALL + "end s off 3 mean;");
-        x.change(0, SHORT, 1, 0);
+        x.change(0, Kind.SHORT, 1, 0);
         Check.due("without SHEETS", x.let(1), 1);
         x.sheet(true);
         x.sheet(false);
@@ -468,7 +461,7 @@ public final class WorkingTest {
 
     private static void letOne() {
         NearEnough x = Check.told(SMALL + "end s off 3 one;");
-        x.change(0, SHORT, 1, 0);
+        x.change(0, Kind.SHORT, 1, 0);
         Check.due("without SHEETS", x.let(1), 1);
         for (int sheet = 0; sheet < 40; sheet++) {
             x.sheet(false);
