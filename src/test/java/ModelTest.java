@@ -73,7 +73,7 @@ public final class ModelTest {
     private void tryChange() {
         int step = random.nextInt(model.steps.size());
         int kind = random.nextInt(7);
-        int n = random.nextInt(kind == 3 && random.nextBoolean() ? 100 : 7);
+        int n = random.nextInt(kind == 3 && random.nextBoolean() ? 100 : kind == 1 ? 12 : 7);
         int saves = random.nextInt(random.nextBoolean() ? 4 : 1000);
         boolean can = model.canChange(step, kind, n);
         int due = can ? model.changes.size() : NONE;
